@@ -64,8 +64,7 @@ public final class ShopEyes {
     private int fed = 0;
     private int faultPlace = NONE;
     private Shop shop = new Shop();
-    private Shop spare = new Shop();
-    private final Reader reader = new Reader(spare);
+    private final Reader reader = new Reader();
     private final State now = new State();
     private final State picture = new State();
     private boolean hasPicture = false;
@@ -103,7 +102,7 @@ public final class ShopEyes {
         if (n < 0 || n > fed) {
             throw new IllegalArgumentException();
         }
-        int found = reader.read(spare, n);
+        int found = reader.read(n);
         fed = 0;
         if (found != 0) {
             faultPlace = reader.place;
@@ -111,9 +110,7 @@ public final class ShopEyes {
             return found;
         }
         faultPlace = NONE;
-        Shop old = shop;
-        shop = spare;
-        spare = old;
+        shop = reader.changeFor(shop);
         now.begin(shop);
         hasPicture = false;
         hasLaid = false;
@@ -355,14 +352,13 @@ public final class ShopEyes {
         knowToday();
         int couple = NONE;
         int least = at(today.result, COST);
-        int aisles = shop.floor.aisles;
-        for (int i = 0; i < aisles * aisles && least != 0; i++) {
-            int aisle = i / aisles;
-            int other = i % aisles;
-            int cost = canHang(aisle, other) ? costMirrored(aisle, other) : least;
-            if (cost < least) {
-                couple = 10 * aisle + other;
-                least = cost;
+        for (int aisle = 0; aisle < shop.floor.aisles; aisle++) {
+            for (int other = 0; other < shop.floor.aisles && least != 0; other++) {
+                int cost = canHang(aisle, other) ? costMirrored(aisle, other) : least;
+                if (cost < least) {
+                    couple = 10 * aisle + other;
+                    least = cost;
+                }
             }
         }
         return couple == NONE || what == 0 ? couple : least;
@@ -979,7 +975,7 @@ public final class ShopEyes {
         private static final int STOPS_TOLD = 4;
 
         private final int[] tape = new int[MOST_BYTES];
-        private Shop told;
+        private Shop told = new Shop();
         private int length = 0;
         private int kind = END;
         private int start = 0;
@@ -989,13 +985,15 @@ public final class ShopEyes {
         private int fault = 0;
         private int place = NONE;
 
-        private Reader(Shop told) {
-            this.told = told;
+        /** Hands out the shop that was read, and takes another one to read the next into. */
+        private Shop changeFor(Shop other) {
+            Shop done = told;
+            told = other;
+            return done;
         }
 
-        /** The FAULT of the first n bytes (its place is kept), or 0: then they are in the shop. */
-        private int read(Shop into, int n) {
-            told = into;
+        /** The FAULT of the first n bytes (its place is kept), or 0: then they are the shop told. */
+        private int read(int n) {
             told.clear();
             length = n;
             next = 0;
@@ -1678,7 +1676,6 @@ public final class ShopEyes {
                 } else if (from != NONE) {
                     putBack(from);
                 }
-                put(thing, p, NONE);
             }
         }
     }

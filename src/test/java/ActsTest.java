@@ -186,6 +186,32 @@ public final class ActsTest {
         Check.due("the oldest stay", 4, x.aisle(2, 1));
     }
 
+    /** What is told behind the image takes the same places in its rows. */
+    private static void rowsOfAnImage() {
+        ShopEyes x = Check.shop(SHOP);
+        x.stock(1, 7);
+        x.sign(4, true);
+        x.miss(1, 3);
+        x.image();
+        int cost = x.day(0);
+        x.undo();
+        x.stock(2, 9);
+        x.stops(2);
+        x.watch(3, 1);
+        x.forget();
+        x.sign(9, false);
+        x.miss(2, 1);
+        Check.due("another day", true, cost != x.day(0));
+        x.restore();
+        Check.due("the same day", cost, x.day(0));
+        Check.due("the coat", 0, x.odds(5, 0));
+        Check.due("he had", 1, x.odds(4, 0));
+        Check.due("the aisle, the minute", 1, x.who(0));
+        Check.due("the act", 0, x.undo());
+        Check.due("is undone", 3, x.aisle(1, 1));
+        Check.due("the other one was none", 5, x.aisle(2, 1));
+    }
+
     private static void image() {
         ShopEyes x = Check.shop(SHOP);
         Check.due("none", false, x.restore());
@@ -237,5 +263,10 @@ public final class ActsTest {
         Check.due("a fault leaves it", true, x.restore());
         x.shop(0);
         Check.due("gone by a shop", false, x.restore());
+        ShopEyes anew = new ShopEyes();
+        Check.due("none", false, anew.restore());
+        anew.image();
+        Check.due("of a new object", true, anew.restore());
+        rowsOfAnImage();
     }
 }

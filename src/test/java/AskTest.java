@@ -31,6 +31,9 @@ public final class AskTest {
         x.watch(3, 2);
         best("follow, whatever is", x, 1, 1, 0);
         ShopEyes wrongly = Check.shop(ROW + "stops 2;false 10;buyer 1 2 9 0 1 1 1 0;rule coat*(minute<3);");
+        ShopEyes one = Check.shop("aisle 1 9;aisle 1 9;way 0 1;lapse 1 2 0 0 1 0;mirror 1 0;rule 0;rule 1;");
+        best("1, then 0", one, 0, 1, 0);
+        best("1, then 0", one, 2, 1, 0);
         best("better nobody", wrongly, 2, -1, 0);
         wrongly.stops(1);
         best("the first, nobody behind all", wrongly, 2, 0, 0);
@@ -119,6 +122,11 @@ public final class AskTest {
             + "lapse 1 2 0 0 4 0;lapse 1 2 0 0 4 0;lapse 1 2 0 0 3 0;lapse 1 1 0 0;");
         Check.due("five", 0 + 0 + 1 + 2, five.lay());
         laid("five", five, 0, 2, 3, 1, 4);
+        ShopEyes last = Check.shop("aisle 4 9;aisle 3 9;aisle 2 9;aisle 1 9;aisle 0 9;way 0 1;way 0 2;way 0 3;way 0 4;"
+            + "lapse 1 1 0 0;lapse 1 1 0 0;lapse 1 2 0 0 1 0;lapse 1 2 0 0 1 0;lapse 1 2 0 0 2 0;lapse 1 1 0 0;lapse 1 2 0 0 1 0;"
+            + "lapse 1 1 0 0;");
+        Check.due("four, three and one", 0 * 4 + 1 * 3 + 2, last.lay());
+        laid("of like ones the first", last, 4, 3, 2, 0, 1);
         ShopEyes six = Check.shop("aisle 1 1;".repeat(6));
         Check.due("spent", -2, six.lay());
         Check.due("none is kept", Check.NO_ELEMENT, () -> six.laid(0));

@@ -138,7 +138,7 @@ public final class DayTest {
             Check.due("first held: " + firstHeld[i], due[i], moved);
         }
         String[] holds = {"1+2*3=7", "7-2-1=4", "100/10/5=2", "7/2=3", "(0-7)/2=0-3", "7/0=0", "2*(1+2)=6", "0 or 1 and 0=0",
-            "not 1<0", "not 0 and 1", "(not not 5)=1", "1 or 0 and 0", "(0 and 0) or 3", "(5 or 0)=1", "(5 and 7)=1",
+            "not 1<0", "not 0 and 1", "(not not 5)=1", "1 or 0 and 0", "(0 and 0) or 3", "(5 or 0)=1", "(5=5)=1", "(1<2)=1", "(not 0)=1", "(5 and 7)=1",
             "9999*9999*9999<0", "0-2<1", "(1<2)+(2<2)=1", "not (0-1)=0", "5", "3-2"};
         String[] fails = {"1+2*3=9", "not 1", "0", "1<1", "2=3", "1 and 0", "0 or 0", "not not 0", "0-1", "1/2", "not 5=5", "not not 5=1"};
         for (String expr : holds) {
@@ -163,6 +163,11 @@ public final class DayTest {
         day("not one after the other", watched(ROW + "thief 1 2 0 0 1 1 2 1 1 2 1 1 0;", 1), 50, 1, 0, 0, 0, 1, 0, 0);
         day("takes nothing any more", watched(ROW + "thief 1 6 0 0 1 1 1 2 2 1 0;", 1), 0, 0, 0, 0, 0, 0, 1, 0);
         day("lapses notice nothing", watched(ROW + "lapse 1 2 0 0 1 1 1 1 0;", 1), 50, 1, 0, 0, 0, 1, 0, 0);
+        ShopEyes anew = Check.shop(ROW + "thief 1 0 0 0 1;");
+        anew.watch(2, 0);
+        day("beside all day", anew, 0, 0, 0, 0, 0, 0, 1, 0);
+        anew.watch(3, 0);
+        day("on another day he is beside anew", anew, 0, 0, 0, 0, 0, 0, 0, 0);
         day("not through mirrors", watched(ROW + "mirror 2 1;" + trip, 2), 50, 1, 0, 0, 0, 1, 0, 0);
         ShopEyes back = Check.shop("aisle 0 0;aisle 9 1;way 0 1;thief 1 2 0 0 1 1 1 0;buyer 3 2 0 0 1;notice 3;buyer 2 2 0 0 1 1;");
         back.watch(3, 1);

@@ -141,6 +141,18 @@ public final class TellTest {
         x.miss(1, 1);
         Check.due("nobody can", 0, x.who(3));
         Check.due("none", -1, x.who(-1));
+        ShopEyes first = Check.shop(ROW + "buyer 1 0 0 0;");
+        first.miss(0, 1);
+        Check.due("in the first minute", 1, first.who(0));
+        StringBuilder text = new StringBuilder("aisle 0 0;".repeat(9));
+        for (int a = 1; a < 9; a++) {
+            text.append("way 0 ").append(a).append(";lapse 1 0 0 0 ").append(a).append(';');
+        }
+        ShopEyes all = Check.shop(text.toString());
+        for (int a = 1; a < 9; a++) {
+            all.miss(a, 2);
+        }
+        Check.due("all of them", 255, all.who(-1));
         ShopEyes nobody = Check.shop("aisle 1 1;");
         Check.due("nothing is missing", 0, nobody.who(-1));
         nobody.miss(0, 60);

@@ -7,6 +7,8 @@ public final class TextTest {
         tape();
         told();
         tokens();
+        tokensEndWithTheFirstBytes();
+        oneShopBehindAnother();
         aFaultLeavesAllElse();
         lineFaults();
         tooMany();
@@ -113,12 +115,47 @@ public final class TextTest {
         fault("aisleX 1 2;", 1, 5);
         fault("aisles 1 2;", 1, 0);
         fault("ais le 1 2;", 1, 0);
+        fault("xisle 1 2;", 1, 0);
+        fault("aislz 1 2;", 1, 0);
         fault("aisle 1 2;; ", 1, 10);
         fault("aisle 1 2", 1, 9);
         fault("aisle 1 2  ", 1, 11);
         fault("aisle ", 1, 6);
         fault("1", 1, 0);
         fault("x", 1, 0);
+    }
+
+    private static void tokensEndWithTheFirstBytes() {
+        ShopEyes x = new ShopEyes();
+        String text = "aisle 1 22;rule coats;";
+        int[][] due = {{9, 1, 9}, {10, 1, 10}, {11, 0, -1}, {13, 1, 11}, {15, 1, 15}, {20, 1, 20}, {21, 3, 16}, {22, 3, 16}};
+        for (int[] one : due) {
+            Check.feed(x, text);
+            Check.due("the first " + one[0], one[1], x.shop(one[0]));
+            Check.due("place in the first " + one[0], one[2], x.fault());
+        }
+        Check.due("of the third", 22, x.aisle(0, 1));
+    }
+
+    private static void oneShopBehindAnother() {
+        ShopEyes x = new ShopEyes();
+        String large = FLOOR + "lapse 1 3 3 0 1 2 1 0;thief 2 1 9 0 0;rule " + "coat+".repeat(90) + "1;rule 9;mirror 0 2;";
+        String small = FLOOR + "lapse 3 2 3 0 1 0;rule 0-1;";
+        for (int i = 0; i < 20; i++) {
+            Check.feed(x, large);
+            Check.due("large", 0, x.shop(large.length()));
+            Check.due("follows the other one", 0, x.eyes(3));
+            Check.due("the second rule", true, x.watch(1, 1));
+            Check.due("follows the first by it", 1, x.eyes(2));
+            Check.feed(x, small);
+            Check.due("small", 0, x.shop(small.length()));
+            Check.due("follows nobody", 0, x.eyes(4));
+            Check.due("one", 1, x.count(3));
+            Check.due("the second one is gone", Check.NO_ELEMENT, () -> x.route(1, 0));
+            Check.due("the mirror is gone", 0, x.aisle(0, 3));
+            Check.due("the first one is another", 3, x.person(0, 1));
+            Check.due("far", 2, x.far(0, 2));
+        }
     }
 
     private static void aFaultLeavesAllElse() {
@@ -272,6 +309,9 @@ public final class TextTest {
         rule("9999", 0, -1);
         rule("foo", 3, 0);
         rule("coats", 3, 0);
+        rule("moat", 3, 0);
+        rule("z", 3, 0);
+        rule("az", 3, 0);
         rule("aisle", 3, 0);
         rule("1+foo", 3, 2);
         rule("1+not 1", 3, 2);
