@@ -1202,8 +1202,8 @@ public final class ShopEyes {
             readFirst(p, MOST_PEOPLE);
             put(people.sort, p, sort);
             put(people.comes, p, readNumber(1, MINUTES));
-            // The route tells how much is too much here, so that is a fault behind it.
-            int takes = readNumber(0, MOST_NUMBER);
+            // More than this ROUTE has is a fault behind it; more than any can have is one here.
+            int takes = readNumber(0, MOST_STEPS);
             put(people.takes, p, takes);
             put(people.coat, p, readNumber(0, MOST_COAT));
             int steps = readRoute(p);

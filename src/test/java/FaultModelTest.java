@@ -166,7 +166,7 @@ public final class FaultModelTest {
         private void person() {
             first("people", 8);
             number(1, 60);
-            int takes = number(0, 9999);
+            int takes = number(0, 12);
             number(0, 9);
             List<Integer> route = new ArrayList<>();
             do {
@@ -315,7 +315,8 @@ public final class FaultModelTest {
             case 3 -> row.addAll(List.of("false", "" + dice.nextInt(1000)));
             case 4 -> row.addAll(List.of("stops", "" + dice.nextInt(3)));
             case 5, 6 -> {
-                row.addAll(List.of("thief", "" + (1 + dice.nextInt(60)), "" + dice.nextInt(3), "" + dice.nextInt(10), "0"));
+                int takes = dice.nextInt(dice.nextInt(5) == 0 ? 15 : 3);
+                row.addAll(List.of("thief", "" + (1 + dice.nextInt(60)), "" + takes, "" + dice.nextInt(10), "0"));
                 int at = 0;
                 for (int steps = dice.nextInt(dice.nextInt(4) == 0 ? 14 : 5); steps > 0; steps--) {
                     at = Math.max(0, Math.min(aisles - 1, at + dice.nextInt(3) - 1));

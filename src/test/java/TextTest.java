@@ -276,11 +276,29 @@ public final class TextTest {
         inFloor("thief 1 2 0 0 #", 6, 14);
         inFloor("thief 1 1 0 0 #", 1, 14);
         inFloor("thief 1 1 0 0 x", 1, 14);
-        inFloor("thief 1 13 0 0 1 1 2 1 0 0 1 2 2 2 2;", 6, 36);
         inFloor("thief 1 9 0 0 2;", 6, 14);
-        inFloor("thief 1 12345 0 0;", 2, 8);
+        inFloor("thief 1 11 0 0 1 1 2 1 0 0 1 2 2 2;", 0, -1);
+        inFloor("thief 1 12 0 0 1 1 2 1 0 0 1 2 2 2;", 6, 34);
+        takesFaults();
         fault("buyer 1 0 0 0;", 3, 12);
         fault("aisle 1 1;aisle 1 1;buyer 1 0 0 0 1;way 0 1;", 6, 34);
+    }
+
+    /** A ROUTE has 12 AISLES at most, so TAKES above it is too much where it stands. */
+    private static void takesFaults() {
+        inFloor("thief 1 12 0 0 1 1 2 1 0 0 1 2 2 2 2;", 0, -1);
+        inFloor("thief 1 12 0 0;", 6, 14);
+        inFloor("thief 1 0012 0 0;", 6, 16);
+        inFloor("thief 1 12;", 1, 10);
+        inFloor("thief 1 13 0 0 1 1 2 1 0 0 1 2 2 2 2;", 2, 8);
+        inFloor("thief 1 13 0 0;", 2, 8);
+        inFloor("thief 1 13 x", 2, 8);
+        inFloor("thief 12 21;", 2, 9);
+        inFloor("lapse 1 99", 2, 8);
+        inFloor("buyer 1 9999 10 7;", 2, 8);
+        inFloor("staff 61 13 0 0;", 2, 6);
+        inFloor("thief 1 12345 0 0;", 2, 8);
+        inFloor("thief 1 x 0 0;", 1, 8);
     }
 
     private static void ruleFaults() {
