@@ -11,15 +11,32 @@ final class Check {
 
     private static int asked = 0;
     private static int wrong = 0;
+    private static String sentence = "";
+    private static int askedBefore = -1;
 
     private Check() {
+    }
+
+    /** The words of the document by which the answers from here on are due. */
+    static void sentence(String words) {
+        endSentence();
+        sentence = words;
+        askedBefore = asked;
+    }
+
+    private static void endSentence() {
+        if (askedBefore == asked) {
+            wrong++;
+            System.out.println("nothing was asked of \"" + sentence + "\"");
+        }
     }
 
     static void due(String what, long want, long got) {
         asked++;
         if (want != got) {
             wrong++;
-            System.out.println(what + " answered " + told(got) + ", due is " + told(want));
+            String by = sentence.isEmpty() ? "" : " (\"" + sentence + "\")";
+            System.out.println(what + " answered " + told(got) + ", due is " + told(want) + by);
         }
     }
 
@@ -62,6 +79,15 @@ final class Check {
         return row.charAt(i) << 24 | row.charAt(i + 1) << 16 | row.charAt(i + 2) << 8 | row.charAt(i + 3);
     }
 
+    /** The FAULT of a text and its place, 0 and NONE if there is none. */
+    static void fault(String text, int fault, int place) {
+        ShopEyes x = new ShopEyes();
+        feed(x, text);
+        due("fault of " + text, fault, x.shop(text.length()));
+        due("place in " + text, place, x.fault());
+        due("told of " + text, fault == 0 ? 0 : 1, x.count(16));
+    }
+
     static ShopEyes shop(String text) {
         ShopEyes x = new ShopEyes();
         feed(x, text);
@@ -70,6 +96,7 @@ final class Check {
     }
 
     static void end(String test) {
+        endSentence();
         System.out.println(test + ": " + asked + " answers, " + wrong + " wrong");
         if (wrong != 0 || asked == 0) {
             System.exit(1);

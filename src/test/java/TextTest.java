@@ -105,24 +105,24 @@ public final class TextTest {
     }
 
     private static void tokens() {
-        fault("", 0, -1);
-        fault("aisle1 2;aisle\n0003 04 ;", 0, -1);
-        fault("aisle 00001 2;", 2, 6);
-        fault("aisle 1 2;\n\n  ", 0, -1);
-        fault("aisle 1 2;\t", 1, 10);
-        fault("aisle 1\r2;", 1, 7);
-        fault("Aisle 1 2;", 1, 0);
-        fault("aisleX 1 2;", 1, 5);
-        fault("aisles 1 2;", 1, 0);
-        fault("ais le 1 2;", 1, 0);
-        fault("xisle 1 2;", 1, 0);
-        fault("aislz 1 2;", 1, 0);
-        fault("aisle 1 2;; ", 1, 10);
-        fault("aisle 1 2", 1, 9);
-        fault("aisle 1 2  ", 1, 11);
-        fault("aisle ", 1, 6);
-        fault("1", 1, 0);
-        fault("x", 1, 0);
+        Check.fault("", 0, -1);
+        Check.fault("aisle1 2;aisle\n0003 04 ;", 0, -1);
+        Check.fault("aisle 00001 2;", 2, 6);
+        Check.fault("aisle 1 2;\n\n  ", 0, -1);
+        Check.fault("aisle 1 2;\t", 1, 10);
+        Check.fault("aisle 1\r2;", 1, 7);
+        Check.fault("Aisle 1 2;", 1, 0);
+        Check.fault("aisleX 1 2;", 1, 5);
+        Check.fault("aisles 1 2;", 1, 0);
+        Check.fault("ais le 1 2;", 1, 0);
+        Check.fault("xisle 1 2;", 1, 0);
+        Check.fault("aislz 1 2;", 1, 0);
+        Check.fault("aisle 1 2;; ", 1, 10);
+        Check.fault("aisle 1 2", 1, 9);
+        Check.fault("aisle 1 2  ", 1, 11);
+        Check.fault("aisle ", 1, 6);
+        Check.fault("1", 1, 0);
+        Check.fault("x", 1, 0);
     }
 
     private static void tokensEndWithTheFirstBytes() {
@@ -192,16 +192,16 @@ public final class TextTest {
     }
 
     private static void lineFaults() {
-        fault("aisle 999 99;", 0, -1);
-        fault("aisle 1000 1;", 2, 6);
-        fault("aisle 1 100;", 2, 8);
-        fault("aisle ;", 1, 6);
-        fault("aisle 1;", 1, 7);
-        fault("aisle 1 2 3;", 1, 10);
-        fault("aisle 1 2 33333;", 1, 10);
-        fault("aisle x 2;", 1, 6);
-        fault("aisle -1 2;", 1, 6);
-        fault("way 0 1;", 3, 4);
+        Check.fault("aisle 999 99;", 0, -1);
+        Check.fault("aisle 1000 1;", 2, 6);
+        Check.fault("aisle 1 100;", 2, 8);
+        Check.fault("aisle ;", 1, 6);
+        Check.fault("aisle 1;", 1, 7);
+        Check.fault("aisle 1 2 3;", 1, 10);
+        Check.fault("aisle 1 2 33333;", 1, 10);
+        Check.fault("aisle x 2;", 1, 6);
+        Check.fault("aisle -1 2;", 1, 6);
+        Check.fault("way 0 1;", 3, 4);
         inFloor("way 0 2;", 0, -1);
         inFloor("way 0 3;", 3, 6);
         inFloor("way 3 0;", 3, 4);
@@ -234,15 +234,15 @@ public final class TextTest {
 
     private static void tooMany() {
         String ten = "aisle 1 1;".repeat(10);
-        fault(ten, 0, -1);
-        fault(ten + "aisle 1 1;", 2, 100);
-        fault(ten + " aisle", 2, 101);
+        Check.fault(ten, 0, -1);
+        Check.fault(ten + "aisle 1 1;", 2, 100);
+        Check.fault(ten + " aisle", 2, 101);
         StringBuilder ways = new StringBuilder(ten);
         for (int i = 0; i < 16; i++) {
             ways.append("way ").append(i / 9).append(' ').append(i < 9 ? i + 1 : i - 7).append(';');
         }
-        fault(ways.toString(), 0, -1);
-        fault(ways + "way 8 9;", 2, ways.length());
+        Check.fault(ways.toString(), 0, -1);
+        Check.fault(ways + "way 8 9;", 2, ways.length());
         String mirrors = "mirror 0 1;mirror 0 2;mirror 1 0;mirror 1 2;mirror 2 0;mirror 2 1;";
         inFloor(mirrors, 0, -1);
         inFloor(mirrors + "mirror 9 9;", 2, mirrors.length());
@@ -280,8 +280,8 @@ public final class TextTest {
         inFloor("thief 1 11 0 0 1 1 2 1 0 0 1 2 2 2;", 0, -1);
         inFloor("thief 1 12 0 0 1 1 2 1 0 0 1 2 2 2;", 6, 34);
         takesFaults();
-        fault("buyer 1 0 0 0;", 3, 12);
-        fault("aisle 1 1;aisle 1 1;buyer 1 0 0 0 1;way 0 1;", 6, 34);
+        Check.fault("buyer 1 0 0 0;", 3, 12);
+        Check.fault("aisle 1 1;aisle 1 1;buyer 1 0 0 0 1;way 0 1;", 6, 34);
     }
 
     /** A ROUTE has 12 AISLES at most, so TAKES above it is too much where it stands. */
@@ -360,14 +360,6 @@ public final class TextTest {
     }
 
     private static void inFloor(String line, int fault, int place) {
-        fault(FLOOR + line, fault, place < 0 ? place : place + FLOOR.length());
-    }
-
-    private static void fault(String text, int fault, int place) {
-        ShopEyes x = new ShopEyes();
-        Check.feed(x, text);
-        Check.due("fault of " + text, fault, x.shop(text.length()));
-        Check.due("place in " + text, place, x.fault());
-        Check.due("told of " + text, fault == 0 ? 0 : 1, x.count(16));
+        Check.fault(FLOOR + line, fault, place < 0 ? place : place + FLOOR.length());
     }
 }
