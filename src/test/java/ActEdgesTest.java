@@ -20,6 +20,7 @@ public final class ActEdgesTest {
         theLatestAreKept();
         lastOneFirst();
         undoEachKind();
+        undoInTenAisles();
         nothingToUndo();
         status();
         image();
@@ -362,6 +363,34 @@ public final class ActEdgesTest {
         x.undo();
         x.undo();
         Check.due("the DAY is as it was", cost, x.day(0));
+    }
+
+    /** In a shop of ten AISLES all that an act keeps is full. */
+    private static void undoInTenAisles() {
+        Check.sentence("STOCK of an AISLE becomes another");
+        ShopEyes x = Check.shop("aisle 1 9;".repeat(10) + "mirror 9 0;");
+        for (int a = 0; a < 10; a++) {
+            Check.due("as told", 9, x.stock(a, 90 + a));
+            x.watch(3, a);
+            x.open(true);
+            x.stops(2);
+        }
+        x.mirror(9, 8);
+        x.mirror(0, 9);
+        x.undo();
+        Check.due("not seen", 0, x.aisle(0, 3));
+        x.undo();
+        Check.due("as told", 1, x.aisle(9, 3));
+        for (int a = 9; a >= 2; a--) {
+            for (int i = 0; i < 4; i++) {
+                Check.due("another", 90 + a, x.aisle(a, 1));
+                x.undo();
+            }
+            for (int other = 0; other < 10; other++) {
+                Check.due("STOCK of " + other, other < a ? 90 + other : 9, x.aisle(other, 1));
+            }
+            count("watch", x, 8, 3, 9, a - 1);
+        }
     }
 
     private static void nothingToUndo() {

@@ -151,15 +151,12 @@ public final class AskEdgesTest {
         glass("no shop", new ShopEyes(), -1, -1);
         ShopEyes one = Check.shop("aisle 9 9;lapse 1 1 0 0;stops 0;rule 1;");
         glass("one AISLE", one, -1, -1);
-        ShopEyes worse = Check.shop(ROW + "stops 2;buyer 1 2 0 0 1 0;");
-        worse.watch(3, 0);
-        glass("it could be worse alone", worse, -1, -1);
+        ShopEyes worse = Check.shop(ROW + "stops 2;buyer 1 2 0 0 1 1 0;");
+        worse.watch(3, 2);
+        glass("a MIRROR could make it worse alone", worse, -1, -1);
         ShopEyes little = Check.shop("aisle 0 9;aisle 1 9;way 0 1;lapse 1 2 0 0 1 0;lapse 1 2 0 0 1 0;");
         little.watch(3, 1);
         glass("from 2 to 0", little, 10, 0);
-        ShopEyes byOne = Check.shop("aisle 1 9;aisle 1 9;way 0 1;lapse 1 2 0 0 1 0;stops 2;buyer 1 1 0 0 1 0;false 1;");
-        byOne.watch(3, 1);
-        glass("the same as now", byOne, -1, -1);
     }
 
     private static void firstOfLikeCouples() {
@@ -173,7 +170,7 @@ public final class AskEdgesTest {
         ShopEyes best = Check.shop(three.replace("aisle 6 9;way", "aisle 7 9;way"));
         best.watch(3, 0);
         glass("the better one behind it", best, 2, 6);
-        // A lone thing in AISLE 1 costs 1 more than what is seen already: 1 is better than 2, 0 better than 1.
+        // WORTHS so small that 1 is the COST by one couple, and a later couple may do better still.
         ShopEyes one = Check.shop("aisle 0 9;aisle 1 9;aisle 2 9;way 0 1;way 0 2;stops 2;lapse 1 2 0 0 1 0;lapse 1 2 0 0 2 0;");
         one.watch(3, 0);
         glass("1 is left", one, 2, 1);
@@ -181,11 +178,14 @@ public final class AskEdgesTest {
             + "lapse 1 2 0 0 1 0;lapse 1 2 0 0 2 0;lapse 1 2 0 0 2 0;");
         steps.watch(3, 0);
         glass("2 with the first, 1 with the second", steps, 2, 1);
-        // In AISLE 1, AISLE 0 being shown keeps one of two in sight, AISLE 2 both of the others.
         ShopEyes zero = Check.shop("aisle 0 9;aisle 0 9;aisle 1 9;way 1 0;way 2 0;stops 2;false 1;"
             + "lapse 1 2 0 0 2 0;buyer 1 2 0 0 1 0;");
         zero.watch(3, 1);
         glass("1 by the door, 1 by the shelf", zero, 10, 1);
+        ShopEyes better = Check.shop("aisle 0 9;aisle 2 9;aisle 1 9;aisle 3 9;way 0 1;way 0 2;stops 2;lapse 1 2 0 0 1 0;lapse 1 2 0 0 2 0;");
+        better.watch(3, 3);
+        better.mirror(3, 2);
+        glass("2 is left, then none", better, 31, 0);
     }
 
     private static void allCouples() {
