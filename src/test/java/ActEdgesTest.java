@@ -31,18 +31,12 @@ public final class ActEdgesTest {
         Check.end("ActEdgesTest");
     }
 
-    private static void count(String what, ShopEyes x, int... pairs) {
-        for (int i = 0; i + 1 < pairs.length; i += 2) {
-            Check.due(what + ": count " + pairs[i], pairs[i + 1], x.count(pairs[i]));
-        }
-    }
-
     private static void atFirst() {
         Check.sentence("At first the WATCH is RULE 0, if there is one, else nobody; HIDDEN");
-        count("with a rule", Check.shop("rule 0;"), 8, 1, 9, 0, 10, 0);
-        count("with four", Check.shop("rule 0;".repeat(4)), 8, 1, 9, 0, 10, 0);
-        count("without", Check.shop("aisle 1 1;lapse 1 1 0 0;"), 8, 0, 9, 0, 10, 0);
-        count("no shop", new ShopEyes(), 8, 0, 9, 0, 10, 0);
+        Rows.count("with a rule", Check.shop("rule 0;"), 8, 1, 9, 0, 10, 0);
+        Rows.count("with four", Check.shop("rule 0;".repeat(4)), 8, 1, 9, 0, 10, 0);
+        Rows.count("without", Check.shop("aisle 1 1;lapse 1 1 0 0;"), 8, 0, 9, 0, 10, 0);
+        Rows.count("no shop", new ShopEyes(), 8, 0, 9, 0, 10, 0);
         Check.due("nobody", -1, Check.shop("aisle 1 1;lapse 1 1 0 0;").eyes(1));
         Check.due("hidden", false, Check.shop(SHOP).open(false));
     }
@@ -54,14 +48,14 @@ public final class ActEdgesTest {
             ShopEyes x = Check.shop(SHOP);
             int by = how;
             Check.due("the first", true, x.watch(how, 0));
-            count("the first", x, 8, how, 9, 0);
+            Rows.count("the first", x, 8, how, 9, 0);
             Check.due("the last", true, x.watch(how, many[how] - 1));
             Check.due("behind it", false, x.watch(how, many[how]));
             Check.due("ahead of the first", false, x.watch(how, -1));
             for (int which : FAR_OFF) {
                 Check.due("watch " + by + " " + which, false, x.watch(by, which));
             }
-            count("as told last", x, 8, how, 9, many[how] - 1, 12, 2, 17, 10);
+            Rows.count("as told last", x, 8, how, 9, many[how] - 1, 12, 2, 17, 10);
         }
         ShopEyes x = Check.shop(SHOP);
         Check.due("how 3", true, x.watch(3, 2));
@@ -70,13 +64,13 @@ public final class ActEdgesTest {
         for (int how : FAR_OFF) {
             Check.due("how " + how, false, x.watch(how, 0));
         }
-        count("as told last", x, 8, 3, 9, 2, 12, 1, 17, 10);
+        Rows.count("as told last", x, 8, 3, 9, 2, 12, 1, 17, 10);
         ShopEyes none = new ShopEyes();
         for (int how = 1; how <= 3; how++) {
             Check.due("there is none", false, none.watch(how, 0));
         }
         Check.due("nobody there is always", true, none.watch(0, 0));
-        count("no shop", none, 8, 0, 9, 0, 12, 1, 17, 3);
+        Rows.count("no shop", none, 8, 0, 9, 0, 12, 1, 17, 3);
     }
 
     private static void whichWithNobody() {
@@ -85,9 +79,9 @@ public final class ActEdgesTest {
         x.watch(2, 1);
         for (int which : FAR_OFF) {
             Check.due("watch 0 " + which, true, x.watch(0, which));
-            count("nobody", x, 8, 0, 9, 0, 17, 0);
+            Rows.count("nobody", x, 8, 0, 9, 0, 17, 0);
         }
-        count("each one is an act", x, 12, 1 + FAR_OFF.length);
+        Rows.count("each one is an act", x, 12, 1 + FAR_OFF.length);
         Check.due("nobody watches", -1, x.eyes(1));
     }
 
@@ -98,10 +92,10 @@ public final class ActEdgesTest {
         boolean before = false;
         for (boolean one : told) {
             Check.due("open " + one, before, x.open(one));
-            count("open", x, 10, one ? 1 : 0);
+            Rows.count("open", x, 10, one ? 1 : 0);
             before = one;
         }
-        count("five acts", x, 12, 5, 17, 0);
+        Rows.count("five acts", x, 12, 5, 17, 0);
     }
 
     private static void stops() {
@@ -118,7 +112,7 @@ public final class ActEdgesTest {
         for (int stops : FAR_OFF) {
             Check.due("stops " + stops, -1, x.stops(stops));
         }
-        count("as told last", x, 7, 1, 12, 8, 17, 10);
+        Rows.count("as told last", x, 7, 1, 12, 8, 17, 10);
         Check.due("1 of no shop", 1, new ShopEyes().stops(2));
     }
 
@@ -140,7 +134,7 @@ public final class ActEdgesTest {
             Check.due("mirror " + a + " 0", -1, x.mirror(a, 0));
             Check.due("mirror " + a, -1, x.mirror(a, a));
         }
-        count("two", x, 2, 2, 12, 1, 17, 9 + 3 * FAR_OFF.length);
+        Rows.count("two", x, 2, 2, 12, 1, 17, 9 + 3 * FAR_OFF.length);
         Check.due("seen", 2, x.aisle(0, 3));
         Check.due("the last couple", 3, x.mirror(2, 1));
         Check.due("no AISLES", -1, new ShopEyes().mirror(0, 1));
@@ -158,13 +152,13 @@ public final class ActEdgesTest {
         Check.due("seen", 512 + 2, x.aisle(0, 3));
         Check.due("seen", 1 + 256 + 128, x.aisle(9, 3));
         Check.due("not seen", 0, x.aisle(5, 3));
-        count("six", x, 2, 6, 12, 5, 17, 2);
+        Rows.count("six", x, 2, 6, 12, 5, 17, 2);
         x.undo();
         Check.due("room again", 6, x.mirror(5, 6));
         Check.due("no more", -1, x.mirror(6, 5));
         ShopEyes told = Check.shop("aisle 1 1;".repeat(3) + "mirror 0 1;mirror 0 2;mirror 1 0;mirror 1 2;mirror 2 0;mirror 2 1;");
         Check.due("a TEXT told six", -1, told.mirror(0, 1));
-        count("six", told, 2, 6, 12, 0, 17, 1);
+        Rows.count("six", told, 2, 6, 12, 0, 17, 1);
     }
 
     private static void stock() {
@@ -182,14 +176,14 @@ public final class ActEdgesTest {
         for (int stock : new int[] {101, 256, 1 << 16, Integer.MAX_VALUE, Integer.MIN_VALUE}) {
             Check.due("stock " + stock, -1, x.stock(1, stock));
         }
-        count("acts", x, 12, 9, 17, 11);
+        Rows.count("acts", x, 12, 9, 17, 11);
         Check.sentence("not counted where an exception tells it");
         for (int a : new int[] {-1, 3, 9, 10, 1 << 30, Integer.MAX_VALUE, Integer.MIN_VALUE}) {
             Check.due("no AISLE " + a, Check.NO_ELEMENT, () -> x.stock(a, 1));
             Check.due("nor STOCK", Check.NO_ELEMENT, () -> x.stock(a, 100));
             Check.due("nor STOCK", Check.NO_ELEMENT, () -> x.stock(a, -1));
         }
-        count("acts", x, 12, 9, 17, 11);
+        Rows.count("acts", x, 12, 9, 17, 11);
     }
 
     private static void days() {
@@ -203,11 +197,11 @@ public final class ActEdgesTest {
         for (int many : FAR_OFF) {
             Check.due("days " + many, -1, x.days(many));
         }
-        count("31 days", x, 11, 31, 12, 2, 17, 3 + FAR_OFF.length);
+        Rows.count("31 days", x, 11, 31, 12, 2, 17, 3 + FAR_OFF.length);
         Check.due("one less on each", 68, x.aisle(0, 1));
         ShopEyes none = new ShopEyes();
         Check.due("in no shop", 0, none.days(30));
-        count("they were", none, 11, 30, 12, 1);
+        Rows.count("they were", none, 11, 30, 12, 1);
     }
 
     private static void daysLeft() {
@@ -237,12 +231,12 @@ public final class ActEdgesTest {
         x.stops(1);
         x.stock(0, 5);
         x.days(1);
-        count("five", x, 12, 5, 11, 1);
+        Rows.count("five", x, 12, 5, 11, 1);
         for (int left = 4; left >= 0; left--) {
             Check.due("undo", left, x.undo());
         }
         Check.due("no more", -1, x.undo());
-        count("as at first", x, 8, 1, 9, 0, 10, 0, 7, 1, 11, 0);
+        Rows.count("as at first", x, 8, 1, 9, 0, 10, 0, 7, 1, 11, 0);
         ShopEyes none = new ShopEyes();
         none.watch(0, 9);
         none.watch(0, 9);
@@ -265,13 +259,13 @@ public final class ActEdgesTest {
             ShopEyes x = Check.shop(SHOP);
             for (int i = 1; i <= 43; i++) {
                 act(x, kind, i);
-                count("kind " + kind, x, 12, Math.min(i, 40));
+                Rows.count("kind " + kind, x, 12, Math.min(i, 40));
             }
             for (int left = 39; left >= 0; left--) {
                 Check.due("kind " + kind + " undone", left, x.undo());
             }
             Check.due("no more", -1, x.undo());
-            count("kind " + kind, x, 12, 0);
+            Rows.count("kind " + kind, x, 12, 0);
         }
     }
 
@@ -323,24 +317,24 @@ public final class ActEdgesTest {
         int[][] watches = {{3, 1}, {3, 2}, {2, 1}, {1, 0}};
         for (int[] one : watches) {
             x.undo();
-            count("watch", x, 8, one[0], 9, one[1]);
+            Rows.count("watch", x, 8, one[0], 9, one[1]);
         }
         x.open(true);
         x.open(false);
         x.undo();
-        count("open", x, 10, 1);
+        Rows.count("open", x, 10, 1);
         x.undo();
-        count("hidden", x, 10, 0);
+        Rows.count("hidden", x, 10, 0);
         x.stops(2);
         x.stops(1);
         x.undo();
-        count("by sight", x, 7, 2);
+        Rows.count("by sight", x, 7, 2);
         x.undo();
-        count("none", x, 7, 0);
+        Rows.count("none", x, 7, 0);
         x.mirror(0, 2);
         x.mirror(2, 0);
         x.undo();
-        count("mirrors", x, 2, 2);
+        Rows.count("mirrors", x, 2, 2);
         Check.due("seen", 4, x.aisle(0, 3));
         Check.due("not seen", 0, x.aisle(2, 3));
         x.undo();
@@ -350,12 +344,12 @@ public final class ActEdgesTest {
         x.days(2);
         Check.due("lost", 0, x.aisle(1, 1));
         x.undo();
-        count("a day", x, 11, 1);
+        Rows.count("a day", x, 11, 1);
         Check.due("lost", 2, x.aisle(1, 1));
         Check.due("paid", 4, x.aisle(2, 1));
         Check.due("nothing was taken", 7, x.aisle(0, 1));
         x.undo();
-        count("no day", x, 11, 0, 12, 0);
+        Rows.count("no day", x, 11, 0, 12, 0);
         int cost = x.day(0);
         x.watch(3, 1);
         x.stops(2);
@@ -389,7 +383,7 @@ public final class ActEdgesTest {
             for (int other = 0; other < 10; other++) {
                 Check.due("STOCK of " + other, other < a ? 90 + other : 9, x.aisle(other, 1));
             }
-            count("watch", x, 8, 3, 9, a - 1);
+            Rows.count("watch", x, 8, 3, 9, a - 1);
         }
     }
 
@@ -401,7 +395,7 @@ public final class ActEdgesTest {
         Check.due("none are left", 0, x.undo());
         Check.due("none", -1, x.undo());
         Check.due("none", -1, new ShopEyes().undo());
-        count("isn't counted as refused", x, 12, 0, 17, 0);
+        Rows.count("isn't counted as refused", x, 12, 0, 17, 0);
         x.watch(9, 9);
         x.stops(3);
         x.mirror(0, 0);
@@ -413,7 +407,7 @@ public final class ActEdgesTest {
         x.lay();
         x.image();
         Check.due("nor is what isn't an act", -1, x.undo());
-        count("signs stay", x, 13, 1, 14, 1);
+        Rows.count("signs stay", x, 13, 1, 14, 1);
     }
 
     private static void status() {
@@ -426,7 +420,7 @@ public final class ActEdgesTest {
             x.stops(7);
             x.sign(10, true);
             x.miss(9, 1);
-            count("round " + i, x, 16, i, 17, 2 * i, 18, 2 * i);
+            Rows.count("round " + i, x, 16, i, 17, 2 * i, 18, 2 * i);
         }
         Check.due("no such n", Check.ILLEGAL, () -> x.shop(999));
         Check.due("no AISLE", Check.NO_ELEMENT, () -> x.stock(9, 1));
@@ -436,9 +430,9 @@ public final class ActEdgesTest {
         for (int i = 0; i < 36; i++) {
             x.feed(0x20202020, 0x20202020, 0x20202020, 0x20202020, 0x20202020);
         }
-        count("not counted", x, 16, 9, 17, 18, 18, 18);
+        Rows.count("not counted", x, 16, 9, 17, 18, 18, 18);
         Check.due("a SHOP without a FAULT", 0, x.shop(700));
-        count("all else is new", x, 16, 9, 17, 18, 18, 18, 0, 0);
+        Rows.count("all else is new", x, 16, 9, 17, 18, 18, 18, 0, 0);
     }
 
     private static void image() {
@@ -457,10 +451,10 @@ public final class ActEdgesTest {
         x.watch(9, 9);
         Check.feed(x, "x");
         x.shop(1);
-        count("now", x, 2, 2, 7, 2, 8, 3, 9, 2, 10, 1, 11, 2, 12, 6, 13, 1, 14, 1, 16, 1, 17, 1, 18, 1);
+        Rows.count("now", x, 2, 2, 7, 2, 8, 3, 9, 2, 10, 1, 11, 2, 12, 6, 13, 1, 14, 1, 16, 1, 17, 1, 18, 1);
         Check.due("the buyer is seen taking", 2, x.day(5));
         Check.due("restored", true, x.restore());
-        count("then", x, 2, 1, 7, 0, 8, 1, 9, 0, 10, 0, 11, 0, 12, 0, 13, 0, 14, 0, 16, 0, 17, 0, 18, 0);
+        Rows.count("then", x, 2, 1, 7, 0, 8, 1, 9, 0, 10, 0, 11, 0, 12, 0, 13, 0, 14, 0, 16, 0, 17, 0, 18, 0);
         Check.due("STOCK", 7, x.aisle(0, 1));
         Check.due("not seen", 0, x.aisle(0, 3));
         Check.due("no sign", 0, x.odds(0, 0));
@@ -495,7 +489,7 @@ public final class ActEdgesTest {
             x.miss(2, 1);
         }
         x.restore();
-        count("two of each", x, 13, 2, 14, 2);
+        Rows.count("two of each", x, 13, 2, 14, 2);
         int[] upper = {1, 1, 1, 1, 1, 0, 0, 0, 0, 0};
         int[] lower = {2, 2, 2, 2, 2, 1, 1, 1, 1, 1};
         for (int coat = 0; coat < 10; coat++) {
@@ -521,7 +515,7 @@ public final class ActEdgesTest {
         x.stops(2);
         x.watch(3, 1);
         x.restore();
-        count("three", x, 12, 3, 7, 0, 8, 1);
+        Rows.count("three", x, 12, 3, 7, 0, 8, 1);
         int[] stock = {20, 10, 7};
         for (int i = 0; i < 3; i++) {
             Check.due("undo", 2 - i, x.undo());
@@ -536,7 +530,7 @@ public final class ActEdgesTest {
             x.undo();
         }
         x.restore();
-        count("forty", x, 12, 40);
+        Rows.count("forty", x, 12, 40);
         Check.due("the latest", 40, x.aisle(2, 1));
         x.undo();
         Check.due("the latest is undone", 39, x.aisle(2, 1));
@@ -555,7 +549,7 @@ public final class ActEdgesTest {
         x.undo();
         x.restore();
         Check.due("it is kept still", 13, x.aisle(0, 1));
-        count("acts", x, 12, 4);
+        Rows.count("acts", x, 12, 4);
     }
 
     private static void noImage() {
@@ -563,11 +557,11 @@ public final class ActEdgesTest {
         ShopEyes x = Check.shop(SHOP);
         x.open(true);
         Check.due("none", false, x.restore());
-        count("stays", x, 10, 1, 12, 1, 16, 0, 17, 0, 18, 0);
+        Rows.count("stays", x, 10, 1, 12, 1, 16, 0, 17, 0, 18, 0);
         x.image();
         x.open(false);
         Check.due("there is", true, x.restore());
-        count("open", x, 10, 1);
+        Rows.count("open", x, 10, 1);
         Check.feed(x, "#");
         x.shop(1);
         Check.due("a FAULT leaves it", true, x.restore());
@@ -580,6 +574,6 @@ public final class ActEdgesTest {
         none.image();
         none.sign(1, true);
         Check.due("of no shop", true, none.restore());
-        count("no sign", none, 13, 0);
+        Rows.count("no sign", none, 13, 0);
     }
 }

@@ -17,26 +17,20 @@ public final class ActsTest {
         Check.end("ActsTest");
     }
 
-    private static void count(String what, ShopEyes x, int... pairs) {
-        for (int i = 0; i + 1 < pairs.length; i += 2) {
-            Check.due(what + ": count " + pairs[i], pairs[i + 1], x.count(pairs[i]));
-        }
-    }
-
     private static void watch() {
         int[] most = {0, 2, 2, 3};
         for (int how = 1; how <= 3; how++) {
             ShopEyes x = Check.shop(SHOP);
-            count("first", x, 8, 1, 9, 0, 10, 0, 12, 0);
+            Rows.count("first", x, 8, 1, 9, 0, 10, 0, 12, 0);
             int last = most[how] - 1;
             Check.due("watch " + how, true, x.watch(how, last));
             Check.due("again", true, x.watch(how, last));
-            count("watch", x, 8, how, 9, last, 12, 2, 17, 0);
+            Rows.count("watch", x, 8, how, 9, last, 12, 2, 17, 0);
             Check.due("one more " + how, false, x.watch(how, last + 1));
             for (int which : WRONG) {
                 Check.due("watch " + how + " " + which, false, x.watch(how, which));
             }
-            count("refused", x, 8, how, 9, last, 12, 2, 17, 5);
+            Rows.count("refused", x, 8, how, 9, last, 12, 2, 17, 5);
         }
         ShopEyes x = Check.shop(SHOP);
         for (int how : new int[] {-1, 4, Integer.MAX_VALUE, Integer.MIN_VALUE}) {
@@ -44,9 +38,9 @@ public final class ActsTest {
         }
         for (int which : WRONG) {
             Check.due("nobody counts which for nothing", true, x.watch(0, which));
-            count("nobody", x, 8, 0, 9, 0);
+            Rows.count("nobody", x, 8, 0, 9, 0);
         }
-        count("four acts, four refused", x, 12, 4, 17, 4);
+        Rows.count("four acts, four refused", x, 12, 4, 17, 4);
         ShopEyes none = new ShopEyes();
         Check.due("no rule", false, none.watch(1, 0));
         Check.due("nobody there", false, none.watch(2, 0));
@@ -60,7 +54,7 @@ public final class ActsTest {
         Check.due("hidden", false, x.open(true));
         Check.due("open", true, x.open(true));
         Check.due("open", true, x.open(false));
-        count("open", x, 10, 0, 12, 4, 17, 0);
+        Rows.count("open", x, 10, 0, 12, 4, 17, 0);
     }
 
     private static void stops() {
@@ -69,11 +63,11 @@ public final class ActsTest {
         Check.due("by sight", 2, x.stops(1));
         Check.due("by proof", 1, x.stops(1));
         Check.due("by proof", 1, x.stops(0));
-        count("stops", x, 7, 0, 12, 4);
+        Rows.count("stops", x, 7, 0, 12, 4);
         for (int stops : new int[] {-1, 3, Integer.MAX_VALUE, Integer.MIN_VALUE}) {
             Check.due("stops " + stops, -1, x.stops(stops));
         }
-        count("refused", x, 7, 0, 12, 4, 17, 4);
+        Rows.count("refused", x, 7, 0, 12, 4, 17, 4);
         Check.due("without", 1, Check.shop("").count(7));
     }
 
@@ -85,7 +79,7 @@ public final class ActsTest {
             Check.due("mirror " + aisle, -1, x.mirror(aisle, 0));
             Check.due("mirror 0 " + aisle, -1, x.mirror(0, aisle));
         }
-        count("refused", x, 2, 1, 12, 0, 17, 12);
+        Rows.count("refused", x, 2, 1, 12, 0, 17, 12);
         int[][] more = {{0, 1}, {0, 2}, {1, 2}, {2, 0}};
         for (int i = 0; i < 4; i++) {
             Check.due("mirror", i + 2, x.mirror(more[i][0], more[i][1]));
@@ -102,7 +96,7 @@ public final class ActsTest {
             y.mirror(couple[0], couple[1]);
         }
         Check.due("there are six", -1, y.mirror(3, 0));
-        count("six", y, 2, 6, 12, 6, 17, 1);
+        Rows.count("six", y, 2, 6, 12, 6, 17, 1);
     }
 
     private static void stock() {
@@ -117,7 +111,7 @@ public final class ActsTest {
         for (int aisle : new int[] {-1, 3, Integer.MAX_VALUE, Integer.MIN_VALUE}) {
             Check.due("stock of " + aisle, Check.NO_ELEMENT, () -> x.stock(aisle, 1));
         }
-        count("stock", x, 12, 3, 17, 4);
+        Rows.count("stock", x, 12, 3, 17, 4);
     }
 
     private static void days() {
@@ -128,20 +122,20 @@ public final class ActsTest {
         Check.due("till there is no more", 50, x.days(30));
         Check.due("none", 0, x.aisle(1, 1));
         Check.due("none", 0, x.aisle(2, 1));
-        count("days", x, 11, 32, 12, 2);
+        Rows.count("days", x, 11, 32, 12, 2);
         for (int many : new int[] {0, -1, 31, Integer.MAX_VALUE, Integer.MIN_VALUE}) {
             Check.due("days " + many, -1, x.days(many));
         }
-        count("refused", x, 11, 32, 12, 2, 17, 5);
+        Rows.count("refused", x, 11, 32, 12, 2, 17, 5);
         Check.due("undone", 1, x.undo());
         Check.due("as it was", 1, x.aisle(1, 1));
         Check.due("as it was", 3, x.aisle(2, 1));
-        count("undone", x, 11, 2);
+        Rows.count("undone", x, 11, 2);
         Check.due("undone", 0, x.undo());
         Check.due("as it was", 3, x.aisle(1, 1));
-        count("undone", x, 11, 0);
+        Rows.count("undone", x, 11, 0);
         Check.due("none", -1, x.undo());
-        count("not counted", x, 17, 5);
+        Rows.count("not counted", x, 17, 5);
     }
 
     private static void undo() {
@@ -154,29 +148,29 @@ public final class ActsTest {
         x.stock(1, 9);
         x.days(3);
         Check.due("by sight, open", 0, x.day(0));
-        count("all", x, 2, 2, 7, 2, 8, 3, 9, 1, 10, 1, 11, 3, 12, 6);
+        Rows.count("all", x, 2, 2, 7, 2, 8, 3, 9, 1, 10, 1, 11, 3, 12, 6);
         Check.due("days", 5, x.undo());
-        count("days", x, 11, 0);
+        Rows.count("days", x, 11, 0);
         Check.due("stock", 9, x.aisle(1, 1));
         Check.due("stock", 4, x.undo());
         Check.due("stock", 3, x.aisle(1, 1));
         Check.due("mirror", 3, x.undo());
-        count("mirror", x, 2, 1, 7, 2);
+        Rows.count("mirror", x, 2, 1, 7, 2);
         Check.due("not seen", 0, x.aisle(0, 3));
         Check.due("stops", 2, x.undo());
-        count("stops", x, 7, 0, 10, 1);
+        Rows.count("stops", x, 7, 0, 10, 1);
         Check.due("no stops", 50, x.day(0));
         Check.due("open", 1, x.undo());
-        count("open", x, 10, 0, 8, 3);
+        Rows.count("open", x, 10, 0, 8, 3);
         Check.due("watch", 0, x.undo());
-        count("watch", x, 8, 1, 9, 0);
+        Rows.count("watch", x, 8, 1, 9, 0);
     }
 
     private static void onlyFortyAreKept() {
         ShopEyes x = Check.shop(SHOP);
         for (int i = 0; i < 45; i++) {
             x.stock(2, i);
-            count("kept", x, 12, Math.min(40, i + 1));
+            Rows.count("kept", x, 12, Math.min(40, i + 1));
         }
         for (int i = 39; i >= 0; i--) {
             Check.due("undo", i, x.undo());
@@ -241,7 +235,7 @@ public final class ActsTest {
         x.shop(1);
         Check.feed(x, "abc");
         Check.due("restored", true, x.restore());
-        count("restored", x, 2, 2, 7, 2, 8, 3, 9, 2, 10, 1, 11, 1, 12, 5, 13, 1, 14, 1, 15, 20, 16, 0, 17, 1, 18, 1);
+        Rows.count("restored", x, 2, 2, 7, 2, 8, 3, 9, 2, 10, 1, 11, 1, 12, 5, 13, 1, 14, 1, 15, 20, 16, 0, 17, 1, 18, 1);
         Check.due("day", cost, x.day(0));
         Check.due("stock", 0, x.aisle(0, 1));
         Check.due("seen", 4, x.aisle(0, 3));
@@ -253,12 +247,12 @@ public final class ActsTest {
         Check.due("acts", 4, x.undo());
         Check.due("days undone", 0, x.count(11));
         Check.due("it stays", true, x.restore());
-        count("again", x, 11, 1, 12, 5);
+        Rows.count("again", x, 11, 1, 12, 5);
         x.watch(1, 1);
         x.image();
         x.undo();
         x.restore();
-        count("in place of another one", x, 8, 1, 9, 1, 12, 6);
+        Rows.count("in place of another one", x, 8, 1, 9, 1, 12, 6);
         x.shop(20);
         Check.due("a fault leaves it", true, x.restore());
         x.shop(0);

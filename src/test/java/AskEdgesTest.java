@@ -26,21 +26,9 @@ public final class AskEdgesTest {
         Check.end("AskEdgesTest");
     }
 
-    private static void best(String what, ShopEyes x, int by, int which, int cost) {
-        Check.due(what + ": best " + by + " 0", which, x.best(by, 0));
-        Check.due(what + ": best " + by + " 1", cost, x.best(by, 1));
-    }
-
-    private static void glass(String what, ShopEyes x, int couple, int cost) {
-        Check.due(what + ": glass 0", couple, x.glass(0));
-        Check.due(what + ": glass 1", cost, x.glass(1));
-    }
-
     private static void lay(String what, ShopEyes x, int cost, int... row) {
         Check.due(what + ": lay", cost, x.lay());
-        for (int a = 0; a < row.length; a++) {
-            Check.due(what + ": laid " + a, row[a], x.laid(a));
-        }
+        Rows.laid(what, x, row);
     }
 
     /** One thing is taken in AISLE a, and whoever sees it stops him: he stands there best. */
@@ -52,11 +40,11 @@ public final class AskEdgesTest {
         }
         for (int a = 1; a < 10; a++) {
             ShopEyes x = Check.shop(ten + "lapse 1 2 0 0 " + a + " 0;");
-            best("taken in " + a, x, 0, a, 0);
+            Rows.best("taken in " + a, x, 0, a, 0);
             Check.due("nobody watches", 7, x.day(0));
         }
-        best("in one AISLE", Check.shop("aisle 7 9;lapse 1 1 0 0;"), 0, 0, 0);
-        best("whatever is", Check.shop(ROW + "stops 0;lapse 1 2 0 0 1 0;rule 1;"), 0, 0, 50);
+        Rows.best("in one AISLE", Check.shop("aisle 7 9;lapse 1 1 0 0;"), 0, 0, 0);
+        Rows.best("whatever is", Check.shop(ROW + "stops 0;lapse 1 2 0 0 1 0;rule 1;"), 0, 0, 50);
     }
 
     private static void followTheLast() {
@@ -64,25 +52,25 @@ public final class AskEdgesTest {
         for (int p = 0; p < 8; p++) {
             String text = "aisle 0 0;aisle 6 9;way 0 1;" + "buyer 1 0 0 0 0 0;".repeat(p) + "lapse 1 2 0 0 1 0;"
                 + "buyer 1 0 0 0 0 0;".repeat(7 - p);
-            best("one of eight, " + p, Check.shop(text), 1, p, 0);
+            Rows.best("one of eight, " + p, Check.shop(text), 1, p, 0);
         }
-        best("staff too", Check.shop(ROW + "stops 2;lapse 9 3 0 0 1 2 1 0;staff 1 0 0 0 1 2;"), 1, 0, 0);
-        best("she leads him there", Check.shop(ROW + "stops 2;lapse 9 2 0 0 1 0;lapse 11 3 0 0 1 2 1 0;staff 1 0 0 0 1 2;mirror 2 1;"), 1, 2, 0);
+        Rows.best("staff too", Check.shop(ROW + "stops 2;lapse 9 3 0 0 1 2 1 0;staff 1 0 0 0 1 2;"), 1, 0, 0);
+        Rows.best("she leads him there", Check.shop(ROW + "stops 2;lapse 9 2 0 0 1 0;lapse 11 3 0 0 1 2 1 0;staff 1 0 0 0 1 2;mirror 2 1;"), 1, 2, 0);
     }
 
     private static void ruleOfMany() {
         Check.sentence("WHICH RULE: of all RULES, or nobody watching");
         for (int rule = 0; rule < 4; rule++) {
             String text = ROW + "lapse 1 2 0 0 1 0;" + "rule 0;".repeat(rule) + "rule 1;" + "rule 0;".repeat(3 - rule);
-            best("one of four, " + rule, Check.shop(text), 2, rule, 0);
+            Rows.best("one of four, " + rule, Check.shop(text), 2, rule, 0);
         }
         String wrongly = ROW + "stops 2;false 1;buyer 1 2 0 0 1 1 0;";
-        best("nobody", Check.shop(wrongly + "rule minute<3;"), 2, -1, 0);
-        best("nobody, of four", Check.shop(wrongly + "rule minute<3;".repeat(4)), 2, -1, 0);
-        best("a rule", Check.shop(wrongly + "rule minute<3;rule 1;"), 2, 1, 0);
+        Rows.best("nobody", Check.shop(wrongly + "rule minute<3;"), 2, -1, 0);
+        Rows.best("nobody, of four", Check.shop(wrongly + "rule minute<3;".repeat(4)), 2, -1, 0);
+        Rows.best("a rule", Check.shop(wrongly + "rule minute<3;rule 1;"), 2, 1, 0);
         ShopEyes watched = Check.shop(wrongly + "rule minute<3;");
         watched.watch(3, 1);
-        best("whatever the WATCH is", watched, 2, -1, 0);
+        Rows.best("whatever the WATCH is", watched, 2, -1, 0);
     }
 
     private static void theFirstOfLikeOnes() {
@@ -91,33 +79,33 @@ public final class AskEdgesTest {
         ShopEyes all = Check.shop(ROW + "lapse 1 0 0 0 1 0;lapse 1 0 0 0 1 0;" + two);
         ShopEyes none = Check.shop(ROW + "stops 0;lapse 1 2 0 0 1 0;lapse 1 2 0 0 1 0;" + two);
         for (int by = 0; by < 3; by++) {
-            best("nothing is lost", all, by, 0, 0);
-            best("all is lost", none, by, 0, 100);
+            Rows.best("nothing is lost", all, by, 0, 0);
+            Rows.best("all is lost", none, by, 0, 100);
         }
         String twice = "aisle 0 0;aisle 6 9;aisle 6 9;way 0 1;way 0 2;stops 2;";
-        best("one of two", Check.shop(twice + "lapse 1 2 0 0 1 0;lapse 1 2 0 0 2 0;"), 0, 1, 6);
-        best("one of two", Check.shop(twice + "buyer 1 0 0 0;lapse 1 2 0 0 1 0;lapse 1 2 0 0 2 0;"), 1, 1, 6);
+        Rows.best("one of two", Check.shop(twice + "lapse 1 2 0 0 1 0;lapse 1 2 0 0 2 0;"), 0, 1, 6);
+        Rows.best("one of two", Check.shop(twice + "buyer 1 0 0 0;lapse 1 2 0 0 1 0;lapse 1 2 0 0 2 0;"), 1, 1, 6);
     }
 
     private static void nobodyBehindAllRules() {
         Check.sentence("nobody behind all RULES");
-        best("like with a rule", Check.shop(ROW + "lapse 1 2 0 0 1 0;rule 0;rule 0;"), 2, 0, 50);
-        best("like with none of them", Check.shop(ROW + "rule 0;"), 2, 0, 0);
-        best("like with the second", Check.shop(ROW + "stops 2;false 9;buyer 1 2 0 0 1 1 0;rule minute<3;rule 1;"), 2, 1, 0);
+        Rows.best("like with a rule", Check.shop(ROW + "lapse 1 2 0 0 1 0;rule 0;rule 0;"), 2, 0, 50);
+        Rows.best("like with none of them", Check.shop(ROW + "rule 0;"), 2, 0, 0);
+        Rows.best("like with the second", Check.shop(ROW + "stops 2;false 9;buyer 1 2 0 0 1 1 0;rule minute<3;rule 1;"), 2, 1, 0);
     }
 
     private static void noneToChooseFrom() {
         Check.sentence("NONE: there is none; of RULES: nobody");
         ShopEyes none = new ShopEyes();
-        best("no AISLES", none, 0, -1, -1);
-        best("no PEOPLE", none, 1, -1, -1);
-        best("no RULES", none, 2, -1, 0);
+        Rows.best("no AISLES", none, 0, -1, -1);
+        Rows.best("no PEOPLE", none, 1, -1, -1);
+        Rows.best("no RULES", none, 2, -1, 0);
         ShopEyes x = Check.shop(ROW + "lapse 1 2 0 0 1 0;");
         x.watch(2, 0);
-        best("no RULES", x, 2, -1, 50);
-        best("no PEOPLE", Check.shop(ROW + "rule 1;"), 1, -1, -1);
-        best("no PEOPLE, but AISLES", Check.shop(ROW + "rule 1;"), 0, 0, 0);
-        best("a RULE without AISLES", Check.shop("rule 1;"), 2, 0, 0);
+        Rows.best("no RULES", x, 2, -1, 50);
+        Rows.best("no PEOPLE", Check.shop(ROW + "rule 1;"), 1, -1, -1);
+        Rows.best("no PEOPLE, but AISLES", Check.shop(ROW + "rule 1;"), 0, 0, 0);
+        Rows.best("a RULE without AISLES", Check.shop("rule 1;"), 2, 0, 0);
     }
 
     private static void bothWays() {
@@ -138,25 +126,25 @@ public final class AskEdgesTest {
     private static void lessThanNow() {
         Check.sentence("if it is less than now");
         ShopEyes x = Check.shop(ROW + "lapse 1 2 0 0 1 0;");
-        glass("nobody watches", x, -1, -1);
+        Rows.glass("nobody watches", x, -1, -1);
         x.watch(3, 1);
-        glass("from 1 to the door", x, 10, 0);
+        Rows.glass("from 1 to the door", x, 10, 0);
         x.stops(0);
-        glass("no STOPS", x, -1, -1);
+        Rows.glass("no STOPS", x, -1, -1);
         x.stops(2);
-        glass("nothing to lose", x, -1, -1);
+        Rows.glass("nothing to lose", x, -1, -1);
         x.stops(1);
         x.mirror(1, 0);
-        glass("there is one", x, -1, -1);
-        glass("no shop", new ShopEyes(), -1, -1);
+        Rows.glass("there is one", x, -1, -1);
+        Rows.glass("no shop", new ShopEyes(), -1, -1);
         ShopEyes one = Check.shop("aisle 9 9;lapse 1 1 0 0;stops 0;rule 1;");
-        glass("one AISLE", one, -1, -1);
+        Rows.glass("one AISLE", one, -1, -1);
         ShopEyes worse = Check.shop(ROW + "stops 2;buyer 1 2 0 0 1 1 0;");
         worse.watch(3, 2);
-        glass("a MIRROR could make it worse alone", worse, -1, -1);
+        Rows.glass("a MIRROR could make it worse alone", worse, -1, -1);
         ShopEyes little = Check.shop("aisle 0 9;aisle 1 9;way 0 1;lapse 1 2 0 0 1 0;lapse 1 2 0 0 1 0;");
         little.watch(3, 1);
-        glass("from 2 to 0", little, 10, 0);
+        Rows.glass("from 2 to 0", little, 10, 0);
     }
 
     private static void firstOfLikeCouples() {
@@ -164,28 +152,28 @@ public final class AskEdgesTest {
         String three = "aisle 6 9;aisle 6 9;aisle 6 9;way 0 1;way 0 2;stops 2;lapse 1 2 0 0 1 0;lapse 1 2 0 0 2 0;";
         ShopEyes x = Check.shop(three);
         x.watch(3, 0);
-        glass("one of two", x, 1, 6);
+        Rows.glass("one of two", x, 1, 6);
         x.mirror(0, 1);
-        glass("the other one", x, 2, 0);
+        Rows.glass("the other one", x, 2, 0);
         ShopEyes best = Check.shop(three.replace("aisle 6 9;way", "aisle 7 9;way"));
         best.watch(3, 0);
-        glass("the better one behind it", best, 2, 6);
+        Rows.glass("the better one behind it", best, 2, 6);
         // WORTHS so small that 1 is the COST by one couple, and a later couple may do better still.
         ShopEyes one = Check.shop("aisle 0 9;aisle 1 9;aisle 2 9;way 0 1;way 0 2;stops 2;lapse 1 2 0 0 1 0;lapse 1 2 0 0 2 0;");
         one.watch(3, 0);
-        glass("1 is left", one, 2, 1);
+        Rows.glass("1 is left", one, 2, 1);
         ShopEyes steps = Check.shop("aisle 0 9;aisle 1 9;aisle 1 9;way 0 1;way 0 2;stops 2;"
             + "lapse 1 2 0 0 1 0;lapse 1 2 0 0 2 0;lapse 1 2 0 0 2 0;");
         steps.watch(3, 0);
-        glass("2 with the first, 1 with the second", steps, 2, 1);
+        Rows.glass("2 with the first, 1 with the second", steps, 2, 1);
         ShopEyes zero = Check.shop("aisle 0 9;aisle 0 9;aisle 1 9;way 1 0;way 2 0;stops 2;false 1;"
             + "lapse 1 2 0 0 2 0;buyer 1 2 0 0 1 0;");
         zero.watch(3, 1);
-        glass("1 by the door, 1 by the shelf", zero, 10, 1);
+        Rows.glass("1 by the door, 1 by the shelf", zero, 10, 1);
         ShopEyes better = Check.shop("aisle 0 9;aisle 2 9;aisle 1 9;aisle 3 9;way 0 1;way 0 2;stops 2;lapse 1 2 0 0 1 0;lapse 1 2 0 0 2 0;");
         better.watch(3, 3);
         better.mirror(3, 2);
-        glass("2 is left, then none", better, 31, 0);
+        Rows.glass("2 is left, then none", better, 31, 0);
     }
 
     private static void allCouples() {
@@ -195,28 +183,28 @@ public final class AskEdgesTest {
                 if (in != other) {
                     ShopEyes x = Check.shop("aisle 1 9;".repeat(10) + "way 0 " + other + ";stops 2;lapse 1 2 0 0 " + other + " 0;");
                     x.watch(3, in);
-                    glass("in " + in, x, 10 * in + other, 0);
+                    Rows.glass("in " + in, x, 10 * in + other, 0);
                     x.mirror(in, other);
-                    glass("it is there", x, -1, -1);
+                    Rows.glass("it is there", x, -1, -1);
                 }
             }
         }
         ShopEyes door = Check.shop("aisle 1 9;".repeat(10) + "stops 2;lapse 1 1 0 0;");
         door.watch(3, 9);
-        glass("in 9 to the door", door, 90, 0);
+        Rows.glass("in 9 to the door", door, 90, 0);
     }
 
     private static void alsoWithSix() {
         Check.sentence("none (also with 6)");
         ShopEyes x = Check.shop("aisle 6 9;".repeat(4) + "way 0 1;stops 2;lapse 1 2 0 0 1 0;mirror 3 0;mirror 3 1;mirror 3 2;mirror 2 0;");
         x.watch(3, 0);
-        glass("four", x, 1, 0);
+        Rows.glass("four", x, 1, 0);
         x.mirror(2, 1);
-        glass("five", x, 1, 0);
+        Rows.glass("five", x, 1, 0);
         x.mirror(2, 3);
-        glass("six", x, -1, -1);
+        Rows.glass("six", x, -1, -1);
         x.undo();
-        glass("five again", x, 1, 0);
+        Rows.glass("five again", x, 1, 0);
     }
 
     /** The DETECTIVE comes to AISLE 4 in time, if WORTHS stand in the told order alone: WORTH is 10 and where it comes from. */
@@ -384,7 +372,7 @@ public final class AskEdgesTest {
         Check.due("one is left", 5, left.cost(false));
         left.days(1);
         Check.due("none is left", 0, left.cost(false));
-        best("none is left", left, 1, 0, 0);
+        Rows.best("none is left", left, 1, 0, 0);
         Check.due("none is left", 0, left.lay());
         Check.due("none is left", 0, left.without(0));
     }

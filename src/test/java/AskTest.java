@@ -14,40 +14,35 @@ public final class AskTest {
         Check.end("AskTest");
     }
 
-    private static void best(String what, ShopEyes x, int by, int which, int cost) {
-        Check.due(what + ": best " + by + " 0", which, x.best(by, 0));
-        Check.due(what + ": best " + by + " 1", cost, x.best(by, 1));
-    }
-
     private static void best() {
         ShopEyes none = new ShopEyes();
-        best("none", none, 0, -1, -1);
-        best("none", none, 1, -1, -1);
-        best("none", none, 2, -1, 0);
+        Rows.best("none", none, 0, -1, -1);
+        Rows.best("none", none, 1, -1, -1);
+        Rows.best("none", none, 2, -1, 0);
         ShopEyes x = Check.shop(ROW + "mirror 2 0;mirror 2 1;lapse 1 2 3 0 1 0;lapse 1 3 4 0 1 2 1 0;rule 0;rule coat;rule 9-coat;");
-        best("stand", x, 0, 2, 0);
-        best("follow", x, 1, 1, 0);
-        best("rule", x, 2, 1, 0);
+        Rows.best("stand", x, 0, 2, 0);
+        Rows.best("follow", x, 1, 1, 0);
+        Rows.best("rule", x, 2, 1, 0);
         x.watch(3, 2);
-        best("follow, whatever is", x, 1, 1, 0);
+        Rows.best("follow, whatever is", x, 1, 1, 0);
         ShopEyes wrongly = Check.shop(ROW + "stops 2;false 10;buyer 1 2 9 0 1 1 1 0;rule coat*(minute<3);");
         ShopEyes one = Check.shop("aisle 1 9;aisle 1 9;way 0 1;lapse 1 2 0 0 1 0;mirror 1 0;rule 0;rule 1;");
-        best("1, then 0", one, 0, 1, 0);
-        best("1, then 0", one, 2, 1, 0);
-        best("better nobody", wrongly, 2, -1, 0);
+        Rows.best("1, then 0", one, 0, 1, 0);
+        Rows.best("1, then 0", one, 2, 1, 0);
+        Rows.best("better nobody", wrongly, 2, -1, 0);
         wrongly.stops(1);
-        best("the first, nobody behind all", wrongly, 2, 0, 0);
+        Rows.best("the first, nobody behind all", wrongly, 2, 0, 0);
     }
 
     private static void likeOnes() {
         ShopEyes x = Check.shop(ROW + "lapse 1 2 3 0 1 2;lapse 1 2 3 0 1 2;rule 1;rule 2;");
-        best("the first aisle", x, 0, 0, 0);
-        best("the first one", x, 1, 0, 0);
-        best("the first rule", x, 2, 0, 0);
+        Rows.best("the first aisle", x, 0, 0, 0);
+        Rows.best("the first one", x, 1, 0, 0);
+        Rows.best("the first rule", x, 2, 0, 0);
         ShopEyes lost = Check.shop(ROW + "stops 0;lapse 1 2 3 0 1 0;lapse 1 2 3 0 1 0;rule 1;rule 2;");
-        best("the first aisle", lost, 0, 0, 100);
-        best("the first one", lost, 1, 0, 100);
-        best("the first rule", lost, 2, 0, 100);
+        Rows.best("the first aisle", lost, 0, 0, 100);
+        Rows.best("the first one", lost, 1, 0, 100);
+        Rows.best("the first rule", lost, 2, 0, 100);
     }
 
     private static void openOrHidden() {
@@ -65,43 +60,32 @@ public final class AskTest {
         Check.due("no aisles", 0, new ShopEyes().cost(true));
     }
 
-    private static void glass(String what, ShopEyes x, int couple, int cost) {
-        Check.due(what + ": glass 0", couple, x.glass(0));
-        Check.due(what + ": glass 1", cost, x.glass(1));
-    }
-
     private static void glass() {
-        glass("no aisles", new ShopEyes(), -1, -1);
+        Rows.glass("no aisles", new ShopEyes(), -1, -1);
         ShopEyes x = Check.shop(ROW + "lapse 1 2 3 0 1 0;lapse 1 3 3 0 1 2 1 0;");
-        glass("nobody watches", x, -1, -1);
+        Rows.glass("nobody watches", x, -1, -1);
         x.watch(3, 1);
-        glass("to the door", x, 10, 20);
+        Rows.glass("to the door", x, 10, 20);
         x.mirror(1, 0);
-        glass("there now", x, 12, 0);
+        Rows.glass("there now", x, 12, 0);
         x.mirror(1, 2);
-        glass("nothing is lost", x, -1, -1);
+        Rows.glass("nothing is lost", x, -1, -1);
         ShopEyes like = Check.shop(ROW + "lapse 1 2 3 0 1 0;");
         like.watch(3, 0);
-        glass("the first that is less", like, 1, 0);
+        Rows.glass("the first that is less", like, 1, 0);
         like.mirror(2, 0);
         like.mirror(2, 1);
         like.mirror(2, 3);
         like.mirror(3, 0);
         like.mirror(3, 1);
-        glass("five", like, 1, 0);
+        Rows.glass("five", like, 1, 0);
         like.mirror(3, 2);
-        glass("six", like, -1, -1);
+        Rows.glass("six", like, -1, -1);
         ShopEyes ten = Check.shop("aisle 9 9;".repeat(10) + "way 0 9;lapse 1 2 0 0 9 0;");
         ten.watch(3, 9);
-        glass("from the last aisle", ten, 90, 0);
+        Rows.glass("from the last aisle", ten, 90, 0);
         ten.watch(3, 0);
-        glass("to the last aisle", ten, 9, 0);
-    }
-
-    private static void laid(String what, ShopEyes x, int... due) {
-        for (int a = 0; a < due.length; a++) {
-            Check.due(what + ": laid " + a, due[a], x.laid(a));
-        }
+        Rows.glass("to the last aisle", ten, 9, 0);
     }
 
     private static void lay() {
@@ -112,27 +96,27 @@ public final class AskTest {
         ShopEyes x = Check.shop("aisle 5 0;aisle 50 3;aisle 20 5;aisle 5 1;way 0 1;way 1 2;way 2 3;" + trips);
         Check.due("none is kept", Check.NO_ELEMENT, () -> x.laid(0));
         Check.due("least", 5 + 5 + 5, x.lay());
-        laid("of like ones the first", x, 1, 0, 3, 2);
+        Rows.laid("of like ones the first", x, 1, 0, 3, 2);
         Check.due("what is stays", 5, x.aisle(0, 0));
         x.stock(2, 0);
         Check.due("is kept", 1, x.laid(0));
         Check.due("stock stays where it is", 10, x.lay());
-        laid("the first of those", x, 0, 3, 1, 2);
+        Rows.laid("the first of those", x, 0, 3, 1, 2);
         ShopEyes five = Check.shop("aisle 1 9;aisle 2 9;aisle 3 9;aisle 4 9;aisle 0 9;way 0 1;way 0 2;way 0 3;way 0 4;"
             + "lapse 1 2 0 0 4 0;lapse 1 2 0 0 4 0;lapse 1 2 0 0 3 0;lapse 1 1 0 0;");
         Check.due("five", 0 + 0 + 1 + 2, five.lay());
-        laid("five", five, 0, 2, 3, 1, 4);
+        Rows.laid("five", five, 0, 2, 3, 1, 4);
         ShopEyes last = Check.shop("aisle 4 9;aisle 3 9;aisle 2 9;aisle 1 9;aisle 0 9;way 0 1;way 0 2;way 0 3;way 0 4;"
             + "lapse 1 1 0 0;lapse 1 1 0 0;lapse 1 2 0 0 1 0;lapse 1 2 0 0 1 0;lapse 1 2 0 0 2 0;lapse 1 1 0 0;lapse 1 2 0 0 1 0;"
             + "lapse 1 1 0 0;");
         Check.due("four, three and one", 0 * 4 + 1 * 3 + 2, last.lay());
-        laid("of like ones the first", last, 4, 3, 2, 0, 1);
+        Rows.laid("of like ones the first", last, 4, 3, 2, 0, 1);
         ShopEyes six = Check.shop("aisle 1 1;".repeat(6));
         Check.due("spent", -2, six.lay());
         Check.due("none is kept", Check.NO_ELEMENT, () -> six.laid(0));
         ShopEyes rule = Check.shop("aisle 9 0;aisle 8 4;aisle 0 0;way 0 1;way 0 2;lapse 1 2 0 0 1 0;buyer 1 0 0 0 2;mirror 1 0;rule worth;");
         Check.due("rules see it laid so", 0, rule.lay());
-        laid("nothing lost", rule, 0, 1, 2);
+        Rows.laid("nothing lost", rule, 0, 1, 2);
     }
 
     private static void without() {

@@ -39,34 +39,16 @@ public final class DayEdgesTest {
         return x;
     }
 
-    private static void day(String what, ShopEyes x, int... due) {
-        for (int i = 0; i < due.length; i++) {
-            Check.due(what + ": day " + i, due[i], x.day(i));
-        }
-    }
-
-    private static void eyes(String what, ShopEyes x, int... due) {
-        for (int i = 0; i < due.length; i++) {
-            Check.due(what + ": eyes " + (i + 1), due[i], x.eyes(i + 1));
-        }
-    }
-
-    private static void has(String what, ShopEyes x, int p, int... due) {
-        for (int i = 0; i < due.length; i++) {
-            Check.due(what + ": has " + p + " " + (i + 1), due[i], x.has(p, i + 1));
-        }
-    }
-
     private static void atFirst() {
         Check.sentence("THE DETECTIVE is in AISLE 0 at first");
-        eyes("somebody who comes late", watched(ROW + "lapse 9 0 0 0 1;", 2, 0), 0, 0, 0, 0, 0, 0, 0, 0, 0, 1);
-        eyes("a RULE for nobody", Check.shop(ROW + "rule 1;"), 0, 0, 0);
-        eyes("one AISLE", Check.shop("aisle 1 1;rule 1;"), 0, 0);
+        Rows.eyes("somebody who comes late", watched(ROW + "lapse 9 0 0 0 1;", 2, 0), 0, 0, 0, 0, 0, 0, 0, 0, 0, 1);
+        Rows.eyes("a RULE for nobody", Check.shop(ROW + "rule 1;"), 0, 0, 0);
+        Rows.eyes("one AISLE", Check.shop("aisle 1 1;rule 1;"), 0, 0);
         Check.due("to the end", 0, Check.shop("aisle 1 1;rule 1;").eyes(60));
-        eyes("on each DAY anew", watched(ROW + "lapse 2 0 0 0 1 2;", 2, 0), 0, 0, 1, 2);
+        Rows.eyes("on each DAY anew", watched(ROW + "lapse 2 0 0 0 1 2;", 2, 0), 0, 0, 1, 2);
         ShopEyes again = watched(ROW + "lapse 2 0 0 0 1 2;", 2, 0);
         again.days(2);
-        eyes("on each DAY anew", again, 0, 0, 1, 2);
+        Rows.eyes("on each DAY anew", again, 0, 0, 1, 2);
     }
 
     private static void notThere() {
@@ -138,7 +120,7 @@ public final class DayEdgesTest {
                     boolean caught = !buyer && (stops == 1 && seen == 3 || stops == 2 && taking);
                     boolean wrongly = buyer && stops == 2 && seen == 1;
                     boolean lost = !buyer && !caught;
-                    day(SORTS[sort] + ", STOPS " + stops + ", seen " + seen, x, lost ? 50 : wrongly ? 7 : 0, lost ? 1 : 0,
+                    Rows.day(SORTS[sort] + ", STOPS " + stops + ", seen " + seen, x, lost ? 50 : wrongly ? 7 : 0, lost ? 1 : 0,
                         caught ? 1 : 0, wrongly ? 1 : 0, buyer ? 1 : 0, taking ? 1 : 0, 0, caught ? 1 : 0);
                     Check.due("a DAY of it", lost ? 50 : wrongly ? 7 : 0, x.days(1));
                     Check.due("what is left", caught ? 9 : 8, x.aisle(1, 1));
@@ -151,31 +133,31 @@ public final class DayEdgesTest {
         Check.sentence("kept in SIGHT up to the minute ahead");
         String trip = "lapse 1 2 0 0 1 1 0;";
         // The one who is followed goes on from the door in the minute in which the other one leaves.
-        day("looks away as he leaves", watched(ROW + trip + "staff 1 0 0 0 1 1 0 1;", 2, 1), 0, 0, 1, 0, 0, 1, 0, 1);
-        day("looks away a minute ahead", watched(ROW + trip + "staff 1 0 0 0 1 1 1 0;", 2, 1), 50, 1, 0, 0, 0, 1, 0, 0);
-        day("looks away and back", watched(ROW + "lapse 1 2 0 0 1 1 1 1 0;" + "staff 1 0 0 0 1 1 2 1 0 0;", 2, 1), 50, 1, 0, 0, 0, 1, 0, 0);
-        day("at once at the door", watched(ROW.replace("aisle 0 9", "aisle 3 9") + "lapse 1 1 0 0;", 3, 0), 0, 0, 1, 0, 0, 1, 0, 1);
-        day("out in MINUTE 60", watched(ROW + "mirror 2 1;mirror 2 0;lapse 57 2 0 0 1 0;", 3, 2), 0, 0, 1, 0, 0, 1, 0, 1);
+        Rows.day("looks away as he leaves", watched(ROW + trip + "staff 1 0 0 0 1 1 0 1;", 2, 1), 0, 0, 1, 0, 0, 1, 0, 1);
+        Rows.day("looks away a minute ahead", watched(ROW + trip + "staff 1 0 0 0 1 1 1 0;", 2, 1), 50, 1, 0, 0, 0, 1, 0, 0);
+        Rows.day("looks away and back", watched(ROW + "lapse 1 2 0 0 1 1 1 1 0;" + "staff 1 0 0 0 1 1 2 1 0 0;", 2, 1), 50, 1, 0, 0, 0, 1, 0, 0);
+        Rows.day("at once at the door", watched(ROW.replace("aisle 0 9", "aisle 3 9") + "lapse 1 1 0 0;", 3, 0), 0, 0, 1, 0, 0, 1, 0, 1);
+        Rows.day("out in MINUTE 60", watched(ROW + "mirror 2 1;mirror 2 0;lapse 57 2 0 0 1 0;", 3, 2), 0, 0, 1, 0, 0, 1, 0, 1);
     }
 
     private static void falseOnes() {
         Check.sentence("is stopped, too: FALSE (he has paid)");
         String two = "mirror 2 1;buyer 1 2 0 0 1 0;buyer 5 2 0 0 1 0;lapse 5 2 0 0 1 0;stops 2;";
-        day("400 without", watched(ROW + two, 3, 2), 800, 0, 1, 2, 2, 7, 0, 4);
-        day("nothing", watched(ROW + two + "false 0;", 3, 2), 0, 0, 1, 2, 2, 7, 0, 4);
-        day("the most", watched(ROW + two + "false 999;", 3, 2), 1998, 0, 1, 2, 2, 7, 0, 4);
+        Rows.day("400 without", watched(ROW + two, 3, 2), 800, 0, 1, 2, 2, 7, 0, 4);
+        Rows.day("nothing", watched(ROW + two + "false 0;", 3, 2), 0, 0, 1, 2, 2, 7, 0, 4);
+        Rows.day("the most", watched(ROW + two + "false 999;", 3, 2), 1998, 0, 1, 2, 2, 7, 0, 4);
         ShopEyes x = watched(ROW + two, 3, 2);
         x.days(1);
         Check.due("two have paid", 7, x.aisle(1, 1));
-        day("who took nothing is not", watched(ROW + two.replace(" 2 0 0 1 0", " 0 0 0 1 0"), 3, 2), 0, 0, 0, 0, 0, 0, 0, 0);
+        Rows.day("who took nothing is not", watched(ROW + two.replace(" 2 0 0 1 0", " 0 0 0 1 0"), 3, 2), 0, 0, 0, 0, 0, 0, 0, 0);
     }
 
     private static void putBack() {
         Check.sentence("What is CAUGHT is put back");
         String one = "aisle 0 0;aisle 9 1;way 0 1;mirror 1 0;lapse 1 2 0 0 1 0;";
         ShopEyes x = watched(one + "buyer 2 2 0 0 1 0;buyer 3 2 0 0 1 0;", 3, 1);
-        has("it is gone a minute ahead", x, 1, -1, -1, -1, -1);
-        has("there in the minute in which he leaves", x, 2, -1, -1, -1, 1, 1, -1);
+        Rows.has("it is gone a minute ahead", x, 1, -1, -1, -1, -1);
+        Rows.has("there in the minute in which he leaves", x, 2, -1, -1, -1, 1, 1, -1);
         Check.due("one has paid", 0, x.days(1));
         Check.due("it is gone then", 0, x.aisle(1, 1));
         ShopEyes alone = watched(one, 3, 1);
@@ -191,7 +173,7 @@ public final class DayEdgesTest {
         }
         String late = "staff 1 0 0 0 1 2 3 4 5 6 7 8 9;lapse 20 0 1 0;lapse 30 0 2 0 0 0 0 0 0 0 0 0;";
         ShopEyes x = watched(row + late + "rule 0;", 2, 0);
-        eyes("behind him", x, 0, 1, 2, 3, 4, 5, 6, 7, 8, 9, 9);
+        Rows.eyes("behind him", x, 0, 1, 2, 3, 4, 5, 6, 7, 8, 9, 9);
         ShopEyes back = Check.shop(row + "lapse 1 0 1 0 1 2 3 4 5 6 7 8 9;lapse 30 0 2 0 0 0 0 0 0 0 0 0 0 0;rule coat;");
         int[] due = {9, 8, 7, 6, 5, 4, 3, 2, 1, 0, 0, 0, 1, 2};
         for (int i = 0; i < due.length; i++) {
@@ -199,11 +181,11 @@ public final class DayEdgesTest {
         }
         String ring = "aisle 0 0;".repeat(6) + "way 0 1;way 1 2;way 2 3;way 3 4;way 4 5;way 5 0;";
         ShopEyes round = Check.shop(ring + "staff 1 0 0 0 5 4;lapse 2 0 1 0 5 4 3;rule here=4;");
-        eyes("the shorter way round a ring", round, 0, 0, 0, 0, 1, 1);
-        eyes("the shorter way round a ring", watched(ring + "staff 1 0 0 0 0 5 4;rule 0;", 2, 0), 0, 0, 5, 4, 4);
-        eyes("not through a like far AISLE", Check.shop("aisle 0 0;".repeat(4) + "way 0 1;way 0 2;way 1 2;way 2 3;"
+        Rows.eyes("the shorter way round a ring", round, 0, 0, 0, 0, 1, 1);
+        Rows.eyes("the shorter way round a ring", watched(ring + "staff 1 0 0 0 0 5 4;rule 0;", 2, 0), 0, 0, 5, 4, 4);
+        Rows.eyes("not through a like far AISLE", Check.shop("aisle 0 0;".repeat(4) + "way 0 1;way 0 2;way 1 2;way 2 3;"
             + "lapse 1 0 1 0 0 2 3;rule here=4;"), 0, 0, 0, 2, 2);
-        eyes("not through a nearer number", Check.shop("aisle 0 0;".repeat(4) + "way 0 3;way 3 2;way 0 1;"
+        Rows.eyes("not through a nearer number", Check.shop("aisle 0 0;".repeat(4) + "way 0 3;way 3 2;way 0 1;"
             + "lapse 1 0 1 0 0 3 2;rule here=4;"), 0, 0, 0, 3, 3);
     }
 
@@ -212,23 +194,23 @@ public final class DayEdgesTest {
         String[] ways = {"way 0 1;way 0 2;way 1 3;way 2 3;", "way 3 2;way 2 0;way 3 1;way 1 0;"};
         for (String some : ways) {
             String text = "aisle 0 0;".repeat(4) + some;
-            eyes("by 2", Check.shop(text + "lapse 1 0 1 0 2 3;rule here=3;"), 0, 0, 1, 1);
-            eyes("by 1", Check.shop(text + "lapse 1 0 1 0 1 3;rule here=3;"), 0, 0, 1, 1);
-            eyes("back", Check.shop(text + "lapse 1 0 1 0 2 3;lapse 9 0 2 0 0 0 0;rule coat;"), 0, 2, 3, 3, 3, 3, 3, 3, 1, 0, 0);
+            Rows.eyes("by 2", Check.shop(text + "lapse 1 0 1 0 2 3;rule here=3;"), 0, 0, 1, 1);
+            Rows.eyes("by 1", Check.shop(text + "lapse 1 0 1 0 1 3;rule here=3;"), 0, 0, 1, 1);
+            Rows.eyes("back", Check.shop(text + "lapse 1 0 1 0 2 3;lapse 9 0 2 0 0 0 0;rule coat;"), 0, 2, 3, 3, 3, 3, 3, 3, 1, 0, 0);
         }
     }
 
     private static void nobodyToFollow() {
         Check.sentence("(of like ones the least; nobody else)");
         String both = ROW + "lapse 1 0 3 0 1;lapse 1 0 3 0 0 0 0;";
-        eyes("the least of two", Check.shop(both + "rule coat;"), 0, 1, 1);
-        eyes("the other one gives more", Check.shop(both + "rule 9-worth;"), 0, 0, 0);
-        eyes("staff gives most", Check.shop(ROW + "staff 1 0 9 0 1;lapse 1 0 1 0;rule coat;"), 0, 0, 0);
-        eyes("who has left", Check.shop(ROW + "lapse 1 0 9 0 1 0;lapse 1 0 1 0 0 0 0 1;rule coat;"), 0, 1, 0, 0, 1);
+        Rows.eyes("the least of two", Check.shop(both + "rule coat;"), 0, 1, 1);
+        Rows.eyes("the other one gives more", Check.shop(both + "rule 9-worth;"), 0, 0, 0);
+        Rows.eyes("staff gives most", Check.shop(ROW + "staff 1 0 9 0 1;lapse 1 0 1 0;rule coat;"), 0, 0, 0);
+        Rows.eyes("who has left", Check.shop(ROW + "lapse 1 0 9 0 1 0;lapse 1 0 1 0 0 0 0 1;rule coat;"), 0, 1, 0, 0, 1);
         Check.sentence("He stays where he is, if nobody is to be followed, if he is there");
-        eyes("he has left", watched(ROW + "lapse 1 0 9 0 1 2 1 0;", 2, 0), 0, 1, 2, 1, 0, 0, 0);
-        eyes("left him behind", Check.shop(ROW + "lapse 1 0 9 0 1 2 1 0;rule here<4;"), 0, 1, 2, 2, 2, 2);
-        eyes("told staff", watched(ROW + "staff 1 0 9 0 1 2 1 0;", 2, 0), 0, 1, 2, 1, 0, 0, 0);
+        Rows.eyes("he has left", watched(ROW + "lapse 1 0 9 0 1 2 1 0;", 2, 0), 0, 1, 2, 1, 0, 0, 0);
+        Rows.eyes("left him behind", Check.shop(ROW + "lapse 1 0 9 0 1 2 1 0;rule here<4;"), 0, 1, 2, 2, 2, 2);
+        Rows.eyes("told staff", watched(ROW + "staff 1 0 9 0 1 2 1 0;", 2, 0), 0, 1, 2, 1, 0, 0, 0);
     }
 
     private static void standsThere() {
@@ -249,46 +231,46 @@ public final class DayEdgesTest {
             for (int minutes = 1; minutes <= 9; minutes++) {
                 String text = ROW + "notice " + notice + ";thief 1 2 0 0" + " 1".repeat(minutes) + " 0;";
                 boolean noticed = minutes >= notice;
-                day("NOTICE " + notice + ", " + minutes + " minutes", watched(text, 3, 1), noticed ? 0 : 50, noticed ? 0 : 1, 0, 0, 0,
+                Rows.day("NOTICE " + notice + ", " + minutes + " minutes", watched(text, 3, 1), noticed ? 0 : 50, noticed ? 0 : 1, 0, 0, 0,
                     notice == 1 ? 0 : 1, noticed ? 1 : 0, 0);
             }
         }
-        day("3 without: 2", watched(ROW + "thief 1 2 0 0 1 1 0;", 3, 1), 50, 1, 0, 0, 0, 1, 0, 0);
-        day("3 without: 3", watched(ROW + "thief 1 2 0 0 1 1 1 0;", 3, 1), 0, 0, 0, 0, 0, 1, 1, 0);
-        day("from the first minute on: 1", watched(ROW + "notice 2;thief 1 0 0 0;", 3, 0), 0, 0, 0, 0, 0, 0, 0, 0);
-        day("from the first minute on: 2", watched(ROW + "notice 2;thief 1 0 0 0 0;", 3, 0), 0, 0, 0, 0, 0, 0, 1, 0);
-        day("in the last minute", watched(ROW + "notice 2;thief 59 0 0 0 0;", 3, 0), 0, 0, 0, 0, 0, 0, 1, 0);
-        day("too late", watched(ROW + "notice 2;thief 60 0 0 0 0;", 3, 0), 0, 0, 0, 0, 0, 0, 0, 0);
+        Rows.day("3 without: 2", watched(ROW + "thief 1 2 0 0 1 1 0;", 3, 1), 50, 1, 0, 0, 0, 1, 0, 0);
+        Rows.day("3 without: 3", watched(ROW + "thief 1 2 0 0 1 1 1 0;", 3, 1), 0, 0, 0, 0, 0, 1, 1, 0);
+        Rows.day("from the first minute on: 1", watched(ROW + "notice 2;thief 1 0 0 0;", 3, 0), 0, 0, 0, 0, 0, 0, 0, 0);
+        Rows.day("from the first minute on: 2", watched(ROW + "notice 2;thief 1 0 0 0 0;", 3, 0), 0, 0, 0, 0, 0, 0, 1, 0);
+        Rows.day("in the last minute", watched(ROW + "notice 2;thief 59 0 0 0 0;", 3, 0), 0, 0, 0, 0, 0, 0, 1, 0);
+        Rows.day("too late", watched(ROW + "notice 2;thief 60 0 0 0 0;", 3, 0), 0, 0, 0, 0, 0, 0, 0, 0);
     }
 
     private static void notOneAfterTheOther() {
         Check.sentence("Each thief in his AISLE is BESIDE him for one minute more, others for none");
-        day("two, away, two", watched(ROW + "thief 1 0 0 0 1 1 2 1 1 0;", 3, 1), 0, 0, 0, 0, 0, 0, 0, 0);
-        day("two, away, three", watched(ROW + "thief 1 0 0 0 1 1 2 1 1 1 0;", 3, 1), 0, 0, 0, 0, 0, 0, 1, 0);
+        Rows.day("two, away, two", watched(ROW + "thief 1 0 0 0 1 1 2 1 1 0;", 3, 1), 0, 0, 0, 0, 0, 0, 0, 0);
+        Rows.day("two, away, three", watched(ROW + "thief 1 0 0 0 1 1 2 1 1 1 0;", 3, 1), 0, 0, 0, 0, 0, 0, 1, 0);
         ShopEyes twice = watched(ROW + "thief 1 2 0 0 1;", 2, 0);
-        day("with him all DAY", twice, 0, 0, 0, 0, 0, 1, 1, 0);
+        Rows.day("with him all DAY", twice, 0, 0, 0, 0, 0, 1, 1, 0);
         twice.stops(0);
-        day("with him all DAY, anew", twice, 0, 0, 0, 0, 0, 1, 1, 0);
-        day("in turns", watched(ROW + "thief 1 0 0 0 1 2 1 2 1 2 1 2 1 0;", 3, 1), 0, 0, 0, 0, 0, 0, 0, 0);
-        day("with him on his way", watched(ROW + "thief 1 0 0 0 1 2;", 2, 0), 0, 0, 0, 0, 0, 0, 1, 0);
-        day("each for himself", watched(ROW + "thief 1 0 0 0 1 1;thief 2 0 0 0 1 1 0;thief 1 0 0 0 1 1 1 0;", 3, 1), 0, 0, 0, 0, 0, 0, 5, 0);
-        day("not where nobody watches", Check.shop(ROW + "thief 1 0 0 0 0 0 0 0;"), 0, 0, 0, 0, 0, 0, 0, 0);
-        day("not through a MIRROR", watched(ROW + "mirror 2 1;thief 1 0 0 0 1 1 1 1 1 0;", 3, 2), 0, 0, 0, 0, 0, 0, 0, 0);
+        Rows.day("with him all DAY, anew", twice, 0, 0, 0, 0, 0, 1, 1, 0);
+        Rows.day("in turns", watched(ROW + "thief 1 0 0 0 1 2 1 2 1 2 1 2 1 0;", 3, 1), 0, 0, 0, 0, 0, 0, 0, 0);
+        Rows.day("with him on his way", watched(ROW + "thief 1 0 0 0 1 2;", 2, 0), 0, 0, 0, 0, 0, 0, 1, 0);
+        Rows.day("each for himself", watched(ROW + "thief 1 0 0 0 1 1;thief 2 0 0 0 1 1 0;thief 1 0 0 0 1 1 1 0;", 3, 1), 0, 0, 0, 0, 0, 0, 5, 0);
+        Rows.day("not where nobody watches", Check.shop(ROW + "thief 1 0 0 0 0 0 0 0;"), 0, 0, 0, 0, 0, 0, 0, 0);
+        Rows.day("not through a MIRROR", watched(ROW + "mirror 2 1;thief 1 0 0 0 1 1 1 1 1 0;", 3, 2), 0, 0, 0, 0, 0, 0, 0, 0);
     }
 
     private static void open() {
         Check.sentence("(OPEN: for one)");
         ShopEyes x = watched(ROW + "notice 9;thief 1 3 0 0 0 1 0;", 3, 1);
-        day("hidden", x, 50, 1, 0, 0, 0, 1, 0, 0);
+        Rows.day("hidden", x, 50, 1, 0, 0, 0, 1, 0, 0);
         x.open(true);
-        day("open: he doesn't even take", x, 0, 0, 0, 0, 0, 0, 1, 0);
+        Rows.day("open: he doesn't even take", x, 0, 0, 0, 0, 0, 0, 1, 0);
         x.watch(3, 2);
-        day("open elsewhere", x, 50, 1, 0, 0, 0, 0, 0, 0);
+        Rows.day("open elsewhere", x, 50, 1, 0, 0, 0, 0, 0, 0);
         x.watch(3, 0);
-        day("at the door, ahead of it", x, 0, 0, 0, 0, 0, 0, 1, 0);
+        Rows.day("at the door, ahead of it", x, 0, 0, 0, 0, 0, 0, 1, 0);
         ShopEyes back = watched(ROW + "thief 1 2 0 0 1 0;", 3, 0);
         back.open(true);
-        day("at the door", back, 0, 0, 0, 0, 0, 0, 1, 0);
+        Rows.day("at the door", back, 0, 0, 0, 0, 0, 0, 1, 0);
     }
 
     private static void thievesAlone() {
@@ -305,13 +287,13 @@ public final class DayEdgesTest {
     private static void noticedInTime() {
         Check.sentence("he puts back what he has, and takes nothing any more");
         String one = "aisle 0 0;aisle 9 1;aisle 7 9;way 0 1;way 1 2;";
-        has("noticed in the minute of taking", watched(one + "thief 1 4 0 0 1 1 1 1;", 3, 1), 0, -1, -1, -1, -1, -1);
-        has("noticed a minute behind it", watched(one + "thief 1 3 0 0 1 1 1 1;", 3, 1), 0, -1, -1, 1, -1, -1);
-        has("takes nothing elsewhere", watched(one + "thief 1 5 0 0 1 1 1 2 2;", 3, 1), 0, -1, -1, -1, -1, -1, -1);
-        has("takes elsewhere who hasn't", watched(one + "thief 1 4 0 0 1 1 2 2;", 3, 1), 0, -1, -1, -1, 2, 2);
+        Rows.has("noticed in the minute of taking", watched(one + "thief 1 4 0 0 1 1 1 1;", 3, 1), 0, -1, -1, -1, -1, -1);
+        Rows.has("noticed a minute behind it", watched(one + "thief 1 3 0 0 1 1 1 1;", 3, 1), 0, -1, -1, 1, -1, -1);
+        Rows.has("takes nothing elsewhere", watched(one + "thief 1 5 0 0 1 1 1 2 2;", 3, 1), 0, -1, -1, -1, -1, -1, -1);
+        Rows.has("takes elsewhere who hasn't", watched(one + "thief 1 4 0 0 1 1 2 2;", 3, 1), 0, -1, -1, -1, 2, 2);
         ShopEyes x = watched(one + "buyer 3 2 0 0 1;thief 1 2 0 0 1 1 1 1;buyer 2 2 0 0 1;", 3, 1);
-        has("what is put back is there in that minute", x, 0, -1, -1, -1, 1, 1);
-        has("not ahead of it", x, 2, -1, -1, -1, -1, -1);
+        Rows.has("what is put back is there in that minute", x, 0, -1, -1, -1, 1, 1);
+        Rows.has("not ahead of it", x, 2, -1, -1, -1, -1, -1);
         Check.due("seen taking he was", 3, x.day(5));
         Check.due("noticed he has", 2, x.day(6));
         ShopEyes left = watched(one + "thief 1 2 0 0 1 1 1 0;", 3, 1);
@@ -330,7 +312,7 @@ public final class DayEdgesTest {
         }
         String one = "aisle 0 0;aisle 9 1;way 0 1;mirror 1 0;";
         ShopEyes stays = watched(one + "lapse 1 2 0 0 1 0;buyer 2 2 0 0 1 1 1;", 3, 1);
-        has("in this minute alone", stays, 1, -1, -1, -1, -1, -1, -1, -1);
+        Rows.has("in this minute alone", stays, 1, -1, -1, -1, -1, -1, -1, -1);
         Check.due("there it was again", 1, stays.day(2));
     }
 
@@ -345,7 +327,7 @@ public final class DayEdgesTest {
         Check.due("not ahead of it", -1, x.has(2, 59));
         Check.due("the twelfth in MINUTE 61", -1, x.has(3, 60));
         Check.due("takes in MINUTE 1", 0, x.has(4, 1));
-        day("out in MINUTE 2 and 60, not in 61", x, 2, 2, 0, 0, 2);
+        Rows.day("out in MINUTE 2 and 60, not in 61", x, 2, 2, 0, 0, 2);
     }
 
     private static void takesIfThereIsStock() {
@@ -370,11 +352,11 @@ public final class DayEdgesTest {
     private static void noMoreInSight() {
         Check.sentence("Who is in SIGHT is that no more, if the DETECTIVE doesn't SEE the AISLE where he is");
         String trip = "lapse 1 2 0 0 1 2 2 1 0;";
-        day("at once", watched(ROW + "mirror 1 0;" + trip, 3, 1), 50, 1, 0, 0, 0, 1, 0, 0);
-        day("at the door alone", watched(ROW + "mirror 1 2;" + trip, 3, 1), 50, 1, 0, 0, 0, 1, 0, 0);
-        day("never", watched(ROW + "mirror 1 2;mirror 1 0;" + trip, 3, 1), 0, 0, 1, 0, 0, 1, 0, 1);
-        day("one of two", watched(ROW + "mirror 1 0;" + trip + "lapse 1 2 0 0 1 1 0;", 3, 1), 50, 1, 1, 0, 0, 3, 0, 2);
-        day("follows him all the way", watched(ROW + trip, 2, 0), 0, 0, 1, 0, 0, 1, 0, 1);
+        Rows.day("at once", watched(ROW + "mirror 1 0;" + trip, 3, 1), 50, 1, 0, 0, 0, 1, 0, 0);
+        Rows.day("at the door alone", watched(ROW + "mirror 1 2;" + trip, 3, 1), 50, 1, 0, 0, 0, 1, 0, 0);
+        Rows.day("never", watched(ROW + "mirror 1 2;mirror 1 0;" + trip, 3, 1), 0, 0, 1, 0, 0, 1, 0, 1);
+        Rows.day("one of two", watched(ROW + "mirror 1 0;" + trip + "lapse 1 2 0 0 1 1 0;", 3, 1), 50, 1, 1, 0, 0, 3, 0, 2);
+        Rows.day("follows him all the way", watched(ROW + trip, 2, 0), 0, 0, 1, 0, 0, 1, 0, 1);
     }
 
     private static void endOfTheDay() {
@@ -383,25 +365,25 @@ public final class DayEdgesTest {
             for (int stops = 0; stops <= 2; stops++) {
                 ShopEyes x = watched(ROW + "stops " + stops + ";" + SORTS[sort] + " 1 2 0 0 1 2;" + SORTS[sort] + " 58 2 0 0 1 0;", 3, 1);
                 int paid = sort == BUYER ? 2 : 0;
-                day(SORTS[sort] + " is in at the end", x, 0, 0, 0, 0, paid, 3, 0, 0);
+                Rows.day(SORTS[sort] + " is in at the end", x, 0, 0, 0, 0, paid, 3, 0, 0);
                 Check.due("has it at the end of MINUTE 60", 1, x.has(0, 60));
                 Check.due("has it at the door", 1, x.has(1, 60));
                 x.days(1);
                 Check.due("left", 9 - paid, x.aisle(1, 1));
             }
         }
-        day("who has nothing pays nothing", Check.shop(ROW + "buyer 1 0 0 0 1;"), 0, 0, 0, 0, 0, 0, 0, 0);
+        Rows.day("who has nothing pays nothing", Check.shop(ROW + "buyer 1 0 0 0 1;"), 0, 0, 0, 0, 0, 0, 0, 0);
     }
 
     private static void whatADayCosts() {
         Check.sentence("COST of a DAY: WORTH of all that is LOST, and FALSE for each who is stopped so");
         ShopEyes most = Check.shop("aisle 999 99;" + "lapse 1 1 0 0;".repeat(8));
-        day("eight of the most", most, 7992, 8, 0, 0, 0, 0, 0, 0);
+        Rows.day("eight of the most", most, 7992, 8, 0, 0, 0, 0, 0, 0);
         Check.due("on thirty DAYS till there is no more", 99 * 999, most.days(30));
         String rightly = "aisle 1 99;aisle 1 99;way 0 1;false 999;stops 2;mirror 1 0;" + "buyer 1 1 0 0 0;".repeat(8);
-        day("eight stopped rightly go on", watched(rightly, 3, 1), 0, 0, 0, 0, 8, 255, 0, 0);
+        Rows.day("eight stopped rightly go on", watched(rightly, 3, 1), 0, 0, 0, 0, 8, 255, 0, 0);
         String wrongly = "aisle 1 99;aisle 1 99;way 0 1;false 999;stops 2;" + "buyer 1 2 0 0 1 0;".repeat(8);
-        day("eight stopped wrongly", watched(wrongly, 3, 1), 7992, 0, 0, 8, 8, 255, 0, 0);
+        Rows.day("eight stopped wrongly", watched(wrongly, 3, 1), 7992, 0, 0, 8, 8, 255, 0, 0);
         Check.sentence("STOCK is one less for each thing that was paid, or LOST");
         ShopEyes x = Check.shop(ROW + "buyer 1 2 0 0 1 0;lapse 1 2 0 0 1 0;lapse 1 3 0 0 1 2;buyer 1 1 0 0;");
         x.days(1);
@@ -409,8 +391,8 @@ public final class DayEdgesTest {
         for (int a = 0; a < 3; a++) {
             Check.due("left of " + a, left[a], x.aisle(a, 1));
         }
-        day("no one comes", Check.shop(ROW), 0, 0, 0, 0, 0, 0, 0, 0);
-        day("no shop", new ShopEyes(), 0, 0, 0, 0, 0, 0, 0, 0);
+        Rows.day("no one comes", Check.shop(ROW), 0, 0, 0, 0, 0, 0, 0, 0);
+        Rows.day("no shop", new ShopEyes(), 0, 0, 0, 0, 0, 0, 0, 0);
     }
 
     private static void asked() {

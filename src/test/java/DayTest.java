@@ -18,75 +18,51 @@ public final class DayTest {
         Check.end("DayTest");
     }
 
-    private static void day(String what, ShopEyes x, int... due) {
-        for (int i = 0; i < due.length; i++) {
-            Check.due(what + ": day " + i, due[i], x.day(i));
-        }
-    }
-
-    private static void eyes(String what, ShopEyes x, int... due) {
-        for (int i = 0; i < due.length; i++) {
-            Check.due(what + ": eyes " + (i + 1), due[i], x.eyes(i + 1));
-        }
-    }
-
-    private static void where(String what, ShopEyes x, int p, int... due) {
-        for (int i = 0; i < due.length; i++) {
-            Check.due(what + ": where " + p + " " + (i + 1), due[i], x.where(p, i + 1));
-        }
-    }
-
-    private static void has(String what, ShopEyes x, int p, int... due) {
-        for (int i = 0; i < due.length; i++) {
-            Check.due(what + ": has " + p + " " + (i + 1), due[i], x.has(p, i + 1));
-        }
-    }
-
     private static void comingAndGoing() {
         ShopEyes x = Check.shop(ROW + "buyer 2 2 0 0 1 1 0;buyer 1 0 0 0;buyer 60 0 0 0;lapse 3 2 0 0 1;");
-        where("back at the door", x, 0, -1, 0, 1, 1, 0, -1, -1);
-        where("one step", x, 1, 0, -1, -1);
-        where("last minute", x, 2, -1, -1);
+        Rows.where("back at the door", x, 0, -1, 0, 1, 1, 0, -1, -1);
+        Rows.where("one step", x, 1, 0, -1, -1);
+        Rows.where("last minute", x, 2, -1, -1);
         Check.due("last minute", 0, x.where(2, 60));
-        where("stays", x, 3, -1, -1, 0, 1, 1, 1, 1);
+        Rows.where("stays", x, 3, -1, -1, 0, 1, 1, 1, 1);
         Check.due("stays to the end", 1, x.where(3, 60));
-        has("till he leaves", x, 0, -1, -1, 1, 1, 1, -1);
+        Rows.has("till he leaves", x, 0, -1, -1, 1, 1, 1, -1);
         Check.due("put back at the end alone", 1, x.has(3, 60));
-        day("nobody watches", x, 0, 0, 0, 0, 1, 0, 0, 0);
-        eyes("nobody watches", x, -1, -1);
+        Rows.day("nobody watches", x, 0, 0, 0, 0, 1, 0, 0, 0);
+        Rows.eyes("nobody watches", x, -1, -1);
     }
 
     private static void leavingWithAThing() {
         String trip = " 1 2 0 0 1 0;";
-        day("buyer pays", Check.shop(ROW + "buyer" + trip), 0, 0, 0, 0, 1);
-        day("thief", Check.shop(ROW + "thief" + trip), 50, 1, 0, 0, 0);
-        day("lapse", Check.shop(ROW + "lapse" + trip), 50, 1, 0, 0, 0);
-        day("staff", Check.shop(ROW + "staff" + trip), 50, 1, 0, 0, 0);
+        Rows.day("buyer pays", Check.shop(ROW + "buyer" + trip), 0, 0, 0, 0, 1);
+        Rows.day("thief", Check.shop(ROW + "thief" + trip), 50, 1, 0, 0, 0);
+        Rows.day("lapse", Check.shop(ROW + "lapse" + trip), 50, 1, 0, 0, 0);
+        Rows.day("staff", Check.shop(ROW + "staff" + trip), 50, 1, 0, 0, 0);
         String keeps = ROW + "mirror 1 0;lapse" + trip;
         ShopEyes x = Check.shop(keeps);
         x.watch(3, 1);
-        day("kept in sight to the door", x, 0, 0, 1, 0, 0, 1, 0, 1);
+        Rows.day("kept in sight to the door", x, 0, 0, 1, 0, 0, 1, 0, 1);
         x.stops(0);
-        day("no stops", x, 50, 1, 0, 0, 0, 1, 0, 0);
+        Rows.day("no stops", x, 50, 1, 0, 0, 0, 1, 0, 0);
         x.stops(2);
-        day("by sight", x, 0, 0, 1, 0, 0, 1, 0, 1);
+        Rows.day("by sight", x, 0, 0, 1, 0, 0, 1, 0, 1);
         ShopEyes y = Check.shop(ROW + "lapse" + trip + "false 7;buyer 1 3 0 0 1 1 0;");
         y.watch(3, 1);
-        day("seen, not kept in sight", y, 50, 1, 0, 0, 1, 3, 0, 0);
+        Rows.day("seen, not kept in sight", y, 50, 1, 0, 0, 1, 3, 0, 0);
         y.stops(2);
-        day("stopped rightly and wrongly", y, 7, 0, 1, 1, 1, 3, 0, 1);
+        Rows.day("stopped rightly and wrongly", y, 7, 0, 1, 1, 1, 3, 0, 1);
         y.mirror(1, 0);
-        day("kept in sight he isn't stopped", y, 0, 0, 1, 0, 1, 3, 0, 1);
+        Rows.day("kept in sight he isn't stopped", y, 0, 0, 1, 0, 1, 3, 0, 1);
         y.watch(3, 0);
-        day("not seen taking", y, 50, 1, 0, 0, 1, 0, 0, 0);
+        Rows.day("not seen taking", y, 50, 1, 0, 0, 1, 0, 0, 0);
     }
 
     private static void whatIsCaughtIsPutBack() {
         ShopEyes x = Check.shop("aisle 0 0;aisle 9 1;way 0 1;mirror 1 0;lapse 1 2 0 0 1 0;buyer 3 2 0 0 1 0;");
         x.watch(3, 1);
-        day("there again in the same minute", x, 0, 0, 1, 0, 1, 3, 0, 1);
+        Rows.day("there again in the same minute", x, 0, 0, 1, 0, 1, 3, 0, 1);
         x.watch(0, 0);
-        day("gone", x, 9, 1, 0, 0, 0, 0, 0, 0);
+        Rows.day("gone", x, 9, 1, 0, 0, 0, 0, 0, 0);
         Check.due("a day", 9, x.days(1));
         Check.due("nothing is left", 0, x.aisle(1, 1));
     }
@@ -94,32 +70,32 @@ public final class DayTest {
     private static void following() {
         ShopEyes x = Check.shop(ROW + "staff 2 0 0 0 1 2 3;");
         x.watch(2, 0);
-        eyes("staff too, if told", x, 0, 0, 1, 2, 3, 3, 3);
+        Rows.eyes("staff too, if told", x, 0, 0, 1, 2, 3, 3, 3);
         ShopEyes y = Check.shop(ROW + "buyer 3 0 0 0 1 2 2 2 1 0;");
         y.watch(2, 0);
-        eyes("comes and goes", y, 0, 0, 0, 1, 2, 2, 2, 1, 0, 0);
+        Rows.eyes("comes and goes", y, 0, 0, 0, 1, 2, 2, 2, 1, 0, 0);
         String square = "aisle 0 0;aisle 1 1;aisle 2 2;aisle 3 3;way 3 2;way 3 1;way 0 2;way 0 1;";
         ShopEyes z = Check.shop(square + "buyer 1 0 0 0 0 1 3;");
         z.watch(2, 0);
-        eyes("beside", z, 0, 0, 1, 3, 3);
+        Rows.eyes("beside", z, 0, 0, 1, 3, 3);
         z.watch(3, 3);
-        eyes("stands", z, 3, 3, 3, 3);
+        Rows.eyes("stands", z, 3, 3, 3, 3);
         ShopEyes fork = Check.shop(square + "buyer 1 0 1 0 2 3 3;rule here=3 and coat=1;");
-        eyes("of like ones the least", fork, 0, 0, 1, 1, 1);
+        Rows.eyes("of like ones the least", fork, 0, 0, 1, 1, 1);
         ShopEyes none = Check.shop("rule 1;");
-        eyes("no aisles", none, -1);
+        Rows.eyes("no aisles", none, -1);
     }
 
     private static void byRule() {
         String people = "staff 1 0 9 0 1 2;buyer 1 0 2 0 1;thief 1 0 2 0 0 1 2;lapse 4 0 3 0 0 0 0;notice 9;";
         ShopEyes x = Check.shop(ROW + people + "rule coat;rule coat-2;rule 0-coat;rule coat*(here=2);");
-        eyes("most, of like ones the least, not staff", x, 0, 1, 1, 0, 0, 0, 0, 1);
+        Rows.eyes("most, of like ones the least, not staff", x, 0, 1, 1, 0, 0, 0, 0, 1);
         x.watch(1, 1);
-        eyes("above 0 alone", x, 0, 0, 0, 0, 0);
+        Rows.eyes("above 0 alone", x, 0, 0, 0, 0, 0);
         x.watch(1, 2);
-        eyes("below 0", x, 0, 0, 0, 0);
+        Rows.eyes("below 0", x, 0, 0, 0, 0);
         x.watch(1, 3);
-        eyes("for a minute", x, 0, 1, 1, 1, 0, 0);
+        Rows.eyes("for a minute", x, 0, 1, 1, 1, 0, 0);
     }
 
     /** One who is asked about stands in AISLE 1 of a row of 0 1; the detective comes to him, if the rule holds. */
@@ -153,26 +129,26 @@ public final class DayTest {
         String trip = "thief 1 2 0 0 1 1 1 1 0;";
         ShopEyes x = Check.shop(ROW + trip);
         x.watch(3, 1);
-        has("three minutes", x, 0, -1, 1, 1, -1, -1);
-        day("three minutes", x, 0, 0, 0, 0, 0, 1, 1, 0);
+        Rows.has("three minutes", x, 0, -1, 1, 1, -1, -1);
+        Rows.day("three minutes", x, 0, 0, 0, 0, 0, 1, 1, 0);
         x.open(true);
-        has("open: before he takes", x, 0, -1, -1, -1);
-        day("open", x, 0, 0, 0, 0, 0, 0, 1, 0);
-        day("notice 4", watched(ROW + trip + "notice 4;", 1), 0, 0, 0, 0, 0, 1, 1, 0);
-        day("notice 5", watched(ROW + trip + "notice 5;", 1), 50, 1, 0, 0, 0, 1, 0, 0);
-        day("not one after the other", watched(ROW + "thief 1 2 0 0 1 1 2 1 1 2 1 1 0;", 1), 50, 1, 0, 0, 0, 1, 0, 0);
-        day("takes nothing any more", watched(ROW + "thief 1 6 0 0 1 1 1 2 2 1 0;", 1), 0, 0, 0, 0, 0, 0, 1, 0);
-        day("lapses notice nothing", watched(ROW + "lapse 1 2 0 0 1 1 1 1 0;", 1), 50, 1, 0, 0, 0, 1, 0, 0);
+        Rows.has("open: before he takes", x, 0, -1, -1, -1);
+        Rows.day("open", x, 0, 0, 0, 0, 0, 0, 1, 0);
+        Rows.day("notice 4", watched(ROW + trip + "notice 4;", 1), 0, 0, 0, 0, 0, 1, 1, 0);
+        Rows.day("notice 5", watched(ROW + trip + "notice 5;", 1), 50, 1, 0, 0, 0, 1, 0, 0);
+        Rows.day("not one after the other", watched(ROW + "thief 1 2 0 0 1 1 2 1 1 2 1 1 0;", 1), 50, 1, 0, 0, 0, 1, 0, 0);
+        Rows.day("takes nothing any more", watched(ROW + "thief 1 6 0 0 1 1 1 2 2 1 0;", 1), 0, 0, 0, 0, 0, 0, 1, 0);
+        Rows.day("lapses notice nothing", watched(ROW + "lapse 1 2 0 0 1 1 1 1 0;", 1), 50, 1, 0, 0, 0, 1, 0, 0);
         ShopEyes anew = Check.shop(ROW + "thief 1 0 0 0 1;");
         anew.watch(2, 0);
-        day("beside all day", anew, 0, 0, 0, 0, 0, 0, 1, 0);
+        Rows.day("beside all day", anew, 0, 0, 0, 0, 0, 0, 1, 0);
         anew.watch(3, 0);
-        day("on another day he is beside anew", anew, 0, 0, 0, 0, 0, 0, 0, 0);
-        day("not through mirrors", watched(ROW + "mirror 2 1;" + trip, 2), 50, 1, 0, 0, 0, 1, 0, 0);
+        Rows.day("on another day he is beside anew", anew, 0, 0, 0, 0, 0, 0, 0, 0);
+        Rows.day("not through mirrors", watched(ROW + "mirror 2 1;" + trip, 2), 50, 1, 0, 0, 0, 1, 0, 0);
         ShopEyes back = Check.shop("aisle 0 0;aisle 9 1;way 0 1;thief 1 2 0 0 1 1 1 0;buyer 3 2 0 0 1;notice 3;buyer 2 2 0 0 1 1;");
         back.watch(3, 1);
-        has("what is put back can be taken at once", back, 1, -1, -1, -1, 1, 1);
-        has("it wasn't there a minute before", back, 2, -1, -1, -1, -1, -1);
+        Rows.has("what is put back can be taken at once", back, 1, -1, -1, -1, 1, 1);
+        Rows.has("it wasn't there a minute before", back, 2, -1, -1, -1, -1, -1);
     }
 
     private static ShopEyes watched(String text, int aisle) {
@@ -183,47 +159,47 @@ public final class DayTest {
 
     private static void taking() {
         ShopEyes x = Check.shop("aisle 5 0;aisle 9 1;way 0 1;buyer 1 3 0 0 1 1 0;lapse 1 3 0 0 1 1 0;buyer 1 0 0 0 1 0;lapse 1 1 0 0;");
-        day("in order; no stock", x, 0, 0, 0, 0, 1, 0, 0, 0);
-        has("the first has it", x, 0, -1, -1, 1, 1, -1);
-        has("none is left", x, 1, -1, -1, -1, -1);
-        has("takes nothing", x, 2, -1, -1, -1);
-        has("nothing there", x, 3, -1, -1);
+        Rows.day("in order; no stock", x, 0, 0, 0, 0, 1, 0, 0, 0);
+        Rows.has("the first has it", x, 0, -1, -1, 1, 1, -1);
+        Rows.has("none is left", x, 1, -1, -1, -1, -1);
+        Rows.has("takes nothing", x, 2, -1, -1, -1);
+        Rows.has("nothing there", x, 3, -1, -1);
         x.stock(1, 2);
-        day("two", x, 9, 1, 0, 0, 1);
+        Rows.day("two", x, 9, 1, 0, 0, 1);
         ShopEyes stays = Check.shop("aisle 0 0;aisle 9 0;way 0 1;lapse 1 2 0 0 1;lapse 1 0 0 0;");
         stays.stock(1, 0);
-        has("comes once alone", stays, 0, -1, -1, -1);
+        Rows.has("comes once alone", stays, 0, -1, -1, -1);
         ShopEyes last = Check.shop("aisle 4 1;lapse 5 1 0 0;");
-        day("at the door", last, 4, 1);
-        has("at the door", last, 0, -1, -1, -1, -1, 0, -1);
+        Rows.day("at the door", last, 4, 1);
+        Rows.has("at the door", last, 0, -1, -1, -1, -1, 0, -1);
     }
 
     private static void sight() {
         String trip = "lapse 1 2 0 0 1 2 1 0;";
-        day("lost on the way", watched(ROW + trip, 1), 50, 1, 0, 0, 0, 1, 0, 0);
-        day("seen again is too late", watched(ROW + "mirror 1 0;" + trip, 1), 50, 1, 0, 0, 0, 1, 0, 0);
-        day("mirrors on all the way", watched(ROW + "mirror 1 0;mirror 1 2;" + trip, 1), 0, 0, 1, 0, 0, 1, 0, 1);
-        day("from afar", watched(ROW + "mirror 3 0;mirror 3 1;mirror 3 2;" + trip, 3), 0, 0, 1, 0, 0, 1, 0, 1);
-        day("a mirror shows one way alone", watched(ROW + "mirror 1 3;" + trip, 3), 50, 1, 0, 0, 0, 0, 0, 0);
+        Rows.day("lost on the way", watched(ROW + trip, 1), 50, 1, 0, 0, 0, 1, 0, 0);
+        Rows.day("seen again is too late", watched(ROW + "mirror 1 0;" + trip, 1), 50, 1, 0, 0, 0, 1, 0, 0);
+        Rows.day("mirrors on all the way", watched(ROW + "mirror 1 0;mirror 1 2;" + trip, 1), 0, 0, 1, 0, 0, 1, 0, 1);
+        Rows.day("from afar", watched(ROW + "mirror 3 0;mirror 3 1;mirror 3 2;" + trip, 3), 0, 0, 1, 0, 0, 1, 0, 1);
+        Rows.day("a mirror shows one way alone", watched(ROW + "mirror 1 3;" + trip, 3), 50, 1, 0, 0, 0, 0, 0, 0);
         ShopEyes x = Check.shop(ROW + trip);
         x.watch(2, 0);
-        day("followed", x, 0, 0, 1, 0, 0, 1, 0, 1);
+        Rows.day("followed", x, 0, 0, 1, 0, 0, 1, 0, 1);
     }
 
     private static void theEnd() {
         ShopEyes x = Check.shop("aisle 6 1;aisle 9 9;way 0 1;buyer 59 2 0 0 1;lapse 59 2 0 0 1 0;thief 60 1 0 0;buyer 58 2 0 0 1 0;");
-        day("paid at the end, put back, out in the last minute", x, 0, 0, 0, 0, 2);
+        Rows.day("paid at the end, put back, out in the last minute", x, 0, 0, 0, 0, 2);
         Check.due("has it at the end", 1, x.has(0, 60));
         Check.due("out in time", 0, x.where(3, 60));
         x.days(1);
         Check.due("two paid", 7, x.aisle(1, 1));
         Check.due("put back", 1, x.aisle(0, 1));
         ShopEyes y = Check.shop("aisle 6 1;lapse 59 1 0 0;");
-        day("out in minute 60", y, 6, 1);
+        Rows.day("out in minute 60", y, 6, 1);
         Check.due("out", -1, y.where(0, 60));
         ShopEyes z = Check.shop("aisle 6 1;stops 2;aisle 7 1;way 0 1;buyer 58 2 0 0 1 1;");
         z.watch(3, 1);
-        day("who is in is not stopped", z, 0, 0, 0, 0, 1, 1);
+        Rows.day("who is in is not stopped", z, 0, 0, 0, 0, 1, 1);
     }
 
     private static void wrongInputs() {

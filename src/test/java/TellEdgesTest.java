@@ -34,11 +34,6 @@ public final class TellEdgesTest {
         Check.end("TellEdgesTest");
     }
 
-    private static void odds(ShopEyes x, int coat, int upper, int lower) {
-        Check.due("odds " + coat + " 0", upper, x.odds(coat, 0));
-        Check.due("odds " + coat + " 1", lower, x.odds(coat, 1));
-    }
-
     private static void twelveSigns() {
         Check.sentence("SIGNS: told of who were stopped (at most 12)");
         ShopEyes x = new ShopEyes();
@@ -50,7 +45,7 @@ public final class TellEdgesTest {
             Check.due("told", 12, x.count(13));
             Check.due("STATUS 2", i, x.count(18));
         }
-        odds(x, 0, 1, 2);
+        Rows.odds("signs", x, 0, 1, 2);
         Check.due("full, and no COAT: one call is refused once", -1, x.sign(10, true));
         Check.due("STATUS 2", 4, x.count(18));
         x.forget();
@@ -71,8 +66,8 @@ public final class TellEdgesTest {
         Check.due("told", 2, x.count(13));
         Check.due("STATUS 2", 2 + FAR_OFF.length, x.count(18));
         Check.due("STATUS 1", 0, x.count(17));
-        odds(x, 0, 1, 2);
-        odds(x, 9, 0, 1);
+        Rows.odds("signs", x, 0, 1, 2);
+        Rows.odds("signs", x, 9, 0, 1);
     }
 
     private static void soMuchOrMore() {
@@ -84,14 +79,14 @@ public final class TellEdgesTest {
         for (int coat = 0; coat < 10; coat++) {
             int had = coat <= 4 ? 2 : 1;
             int by = (10 - coat) % had == 0 ? had : 1;
-            odds(x, coat, had / by, (10 - coat) / by);
+            Rows.odds("signs", x, coat, had / by, (10 - coat) / by);
         }
     }
 
     private static void lowestTerms() {
         Check.sentence("(a fraction in lowest terms; 0 by 1 without)");
-        odds(new ShopEyes(), 0, 0, 1);
-        odds(new ShopEyes(), 9, 0, 1);
+        Rows.odds("signs", new ShopEyes(), 0, 0, 1);
+        Rows.odds("signs", new ShopEyes(), 9, 0, 1);
         for (int all = 1; all <= 12; all++) {
             for (int had = 0; had <= all; had++) {
                 ShopEyes x = new ShopEyes();
@@ -99,20 +94,20 @@ public final class TellEdgesTest {
                     x.sign(5, i < had);
                 }
                 int[] due = Model.lowest(had, all);
-                odds(x, 0, due[0], due[1]);
-                odds(x, 5, due[0], due[1]);
-                odds(x, 6, 0, 1);
+                Rows.odds("signs", x, 0, due[0], due[1]);
+                Rows.odds("signs", x, 5, due[0], due[1]);
+                Rows.odds("signs", x, 6, 0, 1);
             }
         }
         ShopEyes six = new ShopEyes();
         for (int i = 0; i < 12; i++) {
             six.sign(1, i < 8);
         }
-        odds(six, 1, 2, 3);
+        Rows.odds("signs", six, 1, 2, 3);
         ShopEyes none = new ShopEyes();
         none.sign(3, false);
         none.sign(3, false);
-        odds(none, 3, 0, 1);
+        Rows.odds("signs", none, 3, 0, 1);
     }
 
     private static void oddsWrong() {
@@ -177,30 +172,23 @@ public final class TellEdgesTest {
         Check.due("as many from 0 on, three of five from 2 on", 2, x.line());
     }
 
-    private static void gate(int have, int all, int beeps, int wrongly, int upper, int lower) {
-        ShopEyes x = new ShopEyes();
-        String call = "gate " + have + " " + all + " " + beeps + " " + wrongly;
-        Check.due(call + " 0", upper, x.gate(have, all, beeps, wrongly, 0));
-        Check.due(call + " 1", lower, x.gate(have, all, beeps, wrongly, 1));
-    }
-
     private static void gate() {
         Check.sentence("how likely one who beeps has, as a fraction in lowest terms");
-        gate(1, 2, 10, 10, 1, 2);
-        gate(99, 99, 10, 10, 1, 1);
-        gate(99, 99, 1, 0, 1, 1);
-        gate(1, 1, 10, 0, 1, 1);
-        gate(98, 99, 10, 10, 98, 99);
-        gate(1, 99, 1, 10, 1, 981);
-        gate(1, 99, 10, 1, 5, 54);
-        gate(50, 99, 7, 3, 50, 71);
-        gate(0, 1, 10, 10, 0, 1);
-        gate(0, 99, 0, 10, 0, 1);
+        Rows.gate(1, 2, 10, 10, 1, 2);
+        Rows.gate(99, 99, 10, 10, 1, 1);
+        Rows.gate(99, 99, 1, 0, 1, 1);
+        Rows.gate(1, 1, 10, 0, 1, 1);
+        Rows.gate(98, 99, 10, 10, 98, 99);
+        Rows.gate(1, 99, 1, 10, 1, 981);
+        Rows.gate(1, 99, 10, 1, 5, 54);
+        Rows.gate(50, 99, 7, 3, 50, 71);
+        Rows.gate(0, 1, 10, 10, 0, 1);
+        Rows.gate(0, 99, 0, 10, 0, 1);
         for (int have = 0; have <= 99; have += 9) {
             for (int beeps = 0; beeps <= 10; beeps += 5) {
                 for (int wrongly = 0; wrongly <= 10; wrongly += 2) {
                     int[] due = Model.lowest(have * beeps, have * beeps + (99 - have) * wrongly);
-                    gate(have, 99, beeps, wrongly, due[0], due[1]);
+                    Rows.gate(have, 99, beeps, wrongly, due[0], due[1]);
                 }
             }
         }
@@ -208,12 +196,12 @@ public final class TellEdgesTest {
 
     private static void gateNoneBeeps() {
         Check.sentence("(0 by 1, if none beeps)");
-        gate(5, 9, 0, 0, 0, 1);
-        gate(0, 1, 10, 0, 0, 1);
-        gate(0, 99, 10, 0, 0, 1);
-        gate(99, 99, 0, 10, 0, 1);
-        gate(1, 1, 0, 0, 0, 1);
-        gate(5, 9, 0, 1, 0, 1);
+        Rows.gate(5, 9, 0, 0, 0, 1);
+        Rows.gate(0, 1, 10, 0, 0, 1);
+        Rows.gate(0, 99, 10, 0, 0, 1);
+        Rows.gate(99, 99, 0, 10, 0, 1);
+        Rows.gate(1, 1, 0, 0, 0, 1);
+        Rows.gate(5, 9, 0, 1, 0, 1);
     }
 
     private static void gateWrong() {
@@ -384,7 +372,7 @@ public final class TellEdgesTest {
             Check.due("MISSING", 0, x.count(14));
             Check.due("STATUS stays", round + 1, x.count(18));
             Check.due("no act", 0, x.count(12));
-            odds(x, 0, 0, 1);
+            Rows.odds("signs", x, 0, 0, 1);
             Check.due("no LINE", -1, x.line());
             Check.due("none", Check.NO_ELEMENT, () -> x.who(0));
             x.forget();
@@ -393,18 +381,12 @@ public final class TellEdgesTest {
         Check.due("nothing to forget", 0, x.count(13) + x.count(14));
     }
 
-    private static void game(String what, ShopEyes x, int... due) {
-        for (int i = 0; i < 4; i++) {
-            Check.due(what + ": game " + i, due[i], x.game(i));
-        }
-    }
-
     private static void gameWithout() {
         Check.sentence("NONE of 2, 3: there are no AISLES; NONE: none rests");
-        game("no shop", new ShopEyes(), 0, -1, -1, -1);
-        game("no AISLES", Check.shop("false 9;rule 1;"), 0, -1, -1, -1);
-        game("one", Check.shop("aisle 999 0;"), 1, 0, 0, -40);
-        game("two", Check.shop("aisle 5 0;aisle 5 0;"), 0, -1, 0, 5);
+        Rows.game("no shop", new ShopEyes(), 0, -1, -1, -1);
+        Rows.game("no AISLES", Check.shop("false 9;rule 1;"), 0, -1, -1, -1);
+        Rows.game("one", Check.shop("aisle 999 0;"), 1, 0, 0, -40);
+        Rows.game("two", Check.shop("aisle 5 0;aisle 5 0;"), 0, -1, 0, 5);
         Check.sentence("NoSuchElementException: another what");
         ShopEyes x = Check.shop(ROW);
         for (int what : new int[] {-1, 4, -2, 100, Integer.MAX_VALUE, Integer.MIN_VALUE}) {
@@ -416,41 +398,41 @@ public final class TellEdgesTest {
     private static void gameSeen() {
         Check.sentence("WORTH of his is the thief's, if it isn't SEEN from the DETECTIVE's");
         ShopEyes x = Check.shop("aisle 1 0;aisle 2 0;aisle 4 0;");
-        game("each sees his own", x, 0, -1, 2, 2);
+        Rows.game("each sees his own", x, 0, -1, 2, 2);
         x.mirror(0, 2);
-        game("0 sees 2", x, 0, -1, 0, 2);
+        Rows.game("0 sees 2", x, 0, -1, 0, 2);
         x.mirror(0, 1);
-        game("0 sees all: each AISLE of the thief rests", x, 3, 0, 0, -40);
+        Rows.game("0 sees all: each AISLE of the thief rests", x, 3, 0, 0, -40);
         x.undo();
         x.mirror(1, 2);
-        game("1 sees 2, too", x, 0, -1, 1, 1);
+        Rows.game("1 sees 2, too", x, 0, -1, 1, 1);
         x.mirror(2, 1);
         x.mirror(1, 0);
-        game("1 sees all", x, 3, 1, 1, -40);
+        Rows.game("1 sees all", x, 3, 1, 1, -40);
         ShopEyes far = Check.shop("aisle 9 0;".repeat(10) + "mirror 9 0;mirror 9 1;mirror 9 2;mirror 9 3;mirror 9 4;mirror 9 5;");
-        game("ten", far, 0, -1, 0, 9);
+        Rows.game("ten", far, 0, -1, 0, 9);
         ShopEyes last = Check.shop("aisle 1 0;".repeat(9) + "aisle 9 0;");
-        game("the last is watched", last, 0, -1, 9, 1);
+        Rows.game("the last is watched", last, 0, -1, 9, 1);
     }
 
     private static void gameFalse() {
         Check.sentence("else he pays FALSE by 10, cut down");
         int[][] due = {{0, 0}, {9, 0}, {10, -1}, {19, -1}, {20, -2}, {400, -40}, {989, -98}, {990, -99}, {999, -99}};
         for (int[] one : due) {
-            game("FALSE " + one[0], Check.shop("aisle 7 0;false " + one[0] + ";"), 1, 0, 0, one[1]);
+            Rows.game("FALSE " + one[0], Check.shop("aisle 7 0;false " + one[0] + ";"), 1, 0, 0, one[1]);
         }
     }
 
     private static void gameRests() {
         Check.sentence("A couple RESTS, if neither gains more by another AISLE: how many; the first");
-        game("as much is not more", Check.shop("aisle 0 0;aisle 0 0;false 9;"), 4, 0, 0, 0);
-        game("all but the second", Check.shop("aisle 0 0;aisle 5 0;false 9;"), 2, 1, 1, 0);
-        game("all but the first", Check.shop("aisle 5 0;aisle 0 0;false 9;"), 2, 0, 0, 0);
-        game("to pay is less than nothing", Check.shop("aisle 0 0;aisle 0 0;false 10;"), 0, -1, 0, 0);
+        Rows.game("as much is not more", Check.shop("aisle 0 0;aisle 0 0;false 9;"), 4, 0, 0, 0);
+        Rows.game("all but the second", Check.shop("aisle 0 0;aisle 5 0;false 9;"), 2, 1, 1, 0);
+        Rows.game("all but the first", Check.shop("aisle 5 0;aisle 0 0;false 9;"), 2, 0, 0, 0);
+        Rows.game("to pay is less than nothing", Check.shop("aisle 0 0;aisle 0 0;false 10;"), 0, -1, 0, 0);
         ShopEyes two = Check.shop("aisle 0 0;aisle 0 0;false 10;mirror 1 0;");
-        game("where all is seen", two, 2, 1, 1, -1);
-        game("ten that are worth nothing", Check.shop("aisle 0 9;".repeat(10) + "false 0;"), 100, 0, 0, 0);
-        game("the thief alone would go to 0", Check.shop("aisle 5 0;aisle 0 0;mirror 1 0;false 9;mirror 0 1;"), 4, 0, 0, 0);
+        Rows.game("where all is seen", two, 2, 1, 1, -1);
+        Rows.game("ten that are worth nothing", Check.shop("aisle 0 9;".repeat(10) + "false 0;"), 100, 0, 0, 0);
+        Rows.game("the thief alone would go to 0", Check.shop("aisle 5 0;aisle 0 0;mirror 1 0;false 9;mirror 0 1;"), 4, 0, 0, 0);
     }
 
     private static void safest() {
@@ -468,12 +450,6 @@ public final class TellEdgesTest {
         Check.due("that most", 3, one.game(3));
     }
 
-    private static void weeks(String what, ShopEyes x, int seed, int n, int... due) {
-        for (int i = 0; i < 3; i++) {
-            Check.due(what + ": weeks " + seed + " " + n + " " + i, due[i], x.weeks(seed, n, i));
-        }
-    }
-
     private static void draws() {
         Check.sentence("A seed becomes itself times 1103515245 and 12345 (an int that wraps); a DRAW of n is its bits 16 to 30 MOD n then");
         ShopEyes one = Check.shop("aisle 7 9;lapse 1 1 0 0;");
@@ -482,13 +458,13 @@ public final class TellEdgesTest {
             long wrapped = (seed * 1103515245L + 12345L) % 4294967296L;
             long bits = (wrapped + 4294967296L) % 4294967296L / 65536 % 32768;
             int comes = (int) (bits % 2);
-            weeks("one DAY", one, seed, 1, 7 * comes, 7 * comes, comes);
+            Rows.weeks("one DAY", one, seed, 1, 7 * comes, 7 * comes, comes);
         }
-        weeks("12345 is 0 by 65536: he doesn't come", one, 0, 1, 0, 0, 0);
-        weeks("1103527590 is 16838 by 65536: nor then", one, 1, 1, 0, 0, 0);
+        Rows.weeks("12345 is 0 by 65536: he doesn't come", one, 0, 1, 0, 0, 0);
+        Rows.weeks("1103527590 is 16838 by 65536: nor then", one, 1, 1, 0, 0, 0);
         // 1103527590 16838, -1770082073 5758, 662824084 10113: the third one comes.
         ShopEyes three = Check.shop("aisle 1 9;aisle 2 9;aisle 4 9;way 0 1;way 0 2;lapse 1 1 0 0;lapse 1 2 0 0 1 0;lapse 1 2 0 0 2 0;");
-        weeks("for each of PEOPLE, in order", three, 1, 1, 4, 4, 1);
+        Rows.weeks("for each of PEOPLE, in order", three, 1, 1, 4, 4, 1);
         Check.sentence("0 he doesn't come on that DAY");
         long drawn = 1;
         int[] came = new int[30];
@@ -506,28 +482,28 @@ public final class TellEdgesTest {
             sum += came[n - 1];
             most = Math.max(most, came[n - 1]);
             things += Integer.bitCount(came[n - 1]);
-            weeks("what came", many, 1, n, sum, most, things);
+            Rows.weeks("what came", many, 1, n, sum, most, things);
         }
     }
 
     private static void weeksLeft() {
         Check.sentence("n DAYS (0 to 30), each with STOCK as it is left: .. COST of all, the most on one, THINGS that are LOST");
         ShopEyes x = Check.shop("aisle 7 3;" + "lapse 1 1 0 0;".repeat(8));
-        weeks("three are there", x, 5, 30, 21, x.weeks(5, 30, 1), 3);
+        Rows.weeks("three are there", x, 5, 30, 21, x.weeks(5, 30, 1), 3);
         Check.due("as it was", 3, x.aisle(0, 1));
         x.days(1);
-        weeks("none is there", x, 5, 30, 0, 0, 0);
+        Rows.weeks("none is there", x, 5, 30, 0, 0, 0);
         Check.due("no DAY more", 1, x.count(11));
         ShopEyes paid = Check.shop("aisle 7 9;buyer 1 1 0 0;");
-        weeks("what is paid isn't LOST", paid, 5, 30, 0, 0, 0);
+        Rows.weeks("what is paid isn't LOST", paid, 5, 30, 0, 0, 0);
         ShopEyes wrongly = Check.shop("aisle 7 99;aisle 7 99;way 0 1;stops 2;false 5;buyer 1 2 0 0 1 0;");
         wrongly.watch(3, 1);
         int days = wrongly.weeks(1, 30, 0) / 5;
         Check.due("on some DAYS", true, days > 5 && days < 25);
-        weeks("FALSE is COST, too", wrongly, 1, 30, 5 * days, 5, 0);
+        Rows.weeks("FALSE is COST, too", wrongly, 1, 30, 5 * days, 5, 0);
         ShopEyes caught = Check.shop("aisle 7 1;lapse 1 1 0 0;");
         caught.watch(3, 0);
-        weeks("CAUGHT", caught, 1, 30, 0, 0, 0);
+        Rows.weeks("CAUGHT", caught, 1, 30, 0, 0, 0);
         ShopEyes most = Check.shop("aisle 999 99;" + "lapse 1 1 0 0;".repeat(8));
         Check.due("all that is there", 999 * most.weeks(3, 30, 2), most.weeks(3, 30, 0));
         Check.due("a full DAY at most", true, most.weeks(3, 30, 1) <= 7992 && most.weeks(3, 30, 1) > 3000);
@@ -536,7 +512,7 @@ public final class TellEdgesTest {
     private static void weeksEnds() {
         Check.sentence("n DAYS (0 to 30)");
         ShopEyes x = Check.shop("aisle 7 99;" + "lapse 1 1 0 0;".repeat(8));
-        weeks("no DAYS", x, 5, 0, 0, 0, 0);
+        Rows.weeks("no DAYS", x, 5, 0, 0, 0, 0);
         int before = 0;
         for (int n = 1; n <= 30; n++) {
             int sum = x.weeks(5, n, 0);
@@ -544,8 +520,8 @@ public final class TellEdgesTest {
             before = sum;
         }
         Check.due("thirty", 7 * x.weeks(5, 30, 2), x.weeks(5, 30, 0));
-        weeks("nobody", Check.shop("aisle 7 9;"), 5, 30, 0, 0, 0);
-        weeks("no shop", new ShopEyes(), 5, 30, 0, 0, 0);
+        Rows.weeks("nobody", Check.shop("aisle 7 9;"), 5, 30, 0, 0, 0);
+        Rows.weeks("no shop", new ShopEyes(), 5, 30, 0, 0, 0);
     }
 
     private static void weeksWrong() {

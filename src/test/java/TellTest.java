@@ -15,23 +15,18 @@ public final class TellTest {
         Check.end("TellTest");
     }
 
-    private static void odds(String what, ShopEyes x, int coat, int upper, int lower) {
-        Check.due(what + ": odds " + coat + " 0", upper, x.odds(coat, 0));
-        Check.due(what + ": odds " + coat + " 1", lower, x.odds(coat, 1));
-    }
-
     private static void signs() {
         ShopEyes x = new ShopEyes();
-        odds("none told", x, 0, 0, 1);
+        Rows.odds("none told", x, 0, 0, 1);
         Check.due("sign", 1, x.sign(9, false));
-        odds("none had", x, 9, 0, 1);
+        Rows.odds("none had", x, 9, 0, 1);
         Check.due("sign", 2, x.sign(9, true));
         Check.due("sign", 3, x.sign(0, true));
         Check.due("sign", 4, x.sign(5, true));
-        odds("all", x, 0, 3, 4);
-        odds("some", x, 1, 2, 3);
-        odds("so much or more", x, 5, 2, 3);
-        odds("lowest terms", x, 6, 1, 2);
+        Rows.odds("all", x, 0, 3, 4);
+        Rows.odds("some", x, 1, 2, 3);
+        Rows.odds("so much or more", x, 5, 2, 3);
+        Rows.odds("lowest terms", x, 6, 1, 2);
         for (int coat : new int[] {-1, 10, Integer.MAX_VALUE, Integer.MIN_VALUE}) {
             Check.due("sign " + coat, -1, x.sign(coat, true));
             Check.due("odds " + coat, Check.ILLEGAL, () -> x.odds(coat, 0));
@@ -45,7 +40,7 @@ public final class TellTest {
         Check.due("there are 12", -1, x.sign(0, false));
         Check.due("told", 12, x.count(13));
         Check.due("refused", 5, x.count(18));
-        odds("lowest terms", x, 0, 1, 4);
+        Rows.odds("lowest terms", x, 0, 1, 4);
     }
 
     private static void line() {
@@ -68,22 +63,15 @@ public final class TellTest {
         Check.due("from 1 on, where none is told", 3, x.line());
     }
 
-    private static void gate(int have, int all, int beeps, int wrongly, int upper, int lower) {
-        ShopEyes x = new ShopEyes();
-        String call = "gate " + have + " " + all + " " + beeps + " " + wrongly;
-        Check.due(call + " 0", upper, x.gate(have, all, beeps, wrongly, 0));
-        Check.due(call + " 1", lower, x.gate(have, all, beeps, wrongly, 1));
-    }
-
     private static void gate() {
-        gate(1, 6, 9, 1, 9, 14);
-        gate(1, 99, 10, 10, 1, 99);
-        gate(99, 99, 10, 10, 1, 1);
-        gate(99, 99, 0, 10, 0, 1);
-        gate(0, 1, 10, 10, 0, 1);
-        gate(0, 1, 10, 0, 0, 1);
-        gate(5, 10, 0, 0, 0, 1);
-        gate(2, 5, 8, 4, 4, 7);
+        Rows.gate(1, 6, 9, 1, 9, 14);
+        Rows.gate(1, 99, 10, 10, 1, 99);
+        Rows.gate(99, 99, 10, 10, 1, 1);
+        Rows.gate(99, 99, 0, 10, 0, 1);
+        Rows.gate(0, 1, 10, 10, 0, 1);
+        Rows.gate(0, 1, 10, 0, 0, 1);
+        Rows.gate(5, 10, 0, 0, 0, 1);
+        Rows.gate(2, 5, 8, 4, 4, 7);
         ShopEyes x = new ShopEyes();
         for (int no : NO) {
             Check.due("have " + no, Check.ILLEGAL, () -> x.gate(no, 99, 1, 1, 0));
@@ -175,43 +163,31 @@ public final class TellTest {
         Check.due("odds", 0, x.odds(0, 0));
     }
 
-    private static void game(String what, ShopEyes x, int... due) {
-        for (int i = 0; i < 4; i++) {
-            Check.due(what + ": game " + i, due[i], x.game(i));
-        }
-    }
-
     private static void game() {
-        game("no aisles", new ShopEyes(), 0, -1, -1, -1);
-        game("one aisle", Check.shop("aisle 9 9;false 19;"), 1, 0, 0, -1);
-        game("nothing to pay", Check.shop("aisle 9 9;false 9;"), 1, 0, 0, 0);
+        Rows.game("no aisles", new ShopEyes(), 0, -1, -1, -1);
+        Rows.game("one aisle", Check.shop("aisle 9 9;false 19;"), 1, 0, 0, -1);
+        Rows.game("nothing to pay", Check.shop("aisle 9 9;false 9;"), 1, 0, 0, 0);
         ShopEyes x = Check.shop(ROW);
-        game("none rests", x, 0, -1, 3, 50);
+        Rows.game("none rests", x, 0, -1, 3, 50);
         x.mirror(3, 1);
-        game("a mirror", x, 0, -1, 3, 20);
+        Rows.game("a mirror", x, 0, -1, 3, 20);
         x.mirror(3, 2);
         x.mirror(3, 0);
-        game("all are seen", x, 4, 3, 3, -40);
-        game("worth nothing", Check.shop("aisle 0 0;aisle 0 0;false 0;"), 4, 0, 0, 0);
+        Rows.game("all are seen", x, 4, 3, 3, -40);
+        Rows.game("worth nothing", Check.shop("aisle 0 0;aisle 0 0;false 0;"), 4, 0, 0, 0);
         ShopEyes seen = Check.shop("aisle 5 0;aisle 5 0;aisle 5 0;mirror 0 1;mirror 1 0;false 10;");
-        game("of like ones the least", seen, 0, -1, 0, 5);
+        Rows.game("of like ones the least", seen, 0, -1, 0, 5);
         for (int no : new int[] {-1, 4, Integer.MAX_VALUE, Integer.MIN_VALUE}) {
             Check.due("game " + no, Check.NO_ELEMENT, () -> x.game(no));
         }
     }
 
-    private static void weeks(String what, ShopEyes x, int seed, int n, int... due) {
-        for (int i = 0; i < 3; i++) {
-            Check.due(what + ": weeks " + seed + " " + n + " " + i, due[i], x.weeks(seed, n, i));
-        }
-    }
-
     /** From seed 1 the draws of 2 are 0 0 1, 0 0 1, 1 0 1 ..: bits 16 to 30 of 1103527590, 2524885223, 662824084 .. */
     private static void weeks() {
-        weeks("nobody", new ShopEyes(), 1, 30, 0, 0, 0);
+        Rows.weeks("nobody", new ShopEyes(), 1, 30, 0, 0, 0);
         String people = "lapse 1 2 0 0 1 0;lapse 1 3 0 0 1 2 1 0;lapse 1 4 0 0 1 2 3 2 1 0;";
         ShopEyes x = Check.shop(ROW + people);
-        weeks("no days", x, 1, 0, 0, 0, 0);
+        Rows.weeks("no days", x, 1, 0, 0, 0, 0);
         int[] worth = {50, 20, 100};
         int[] left = {3, 5, 1};
         int seed = 1;
@@ -230,10 +206,10 @@ public final class TellTest {
             }
             sum += cost;
             most = Math.max(most, cost);
-            weeks("some days", x, 1, n, sum, most, things);
+            Rows.weeks("some days", x, 1, n, sum, most, things);
         }
-        weeks("all is gone", x, 1, 30, 350, most, 9);
-        weeks("seed below 0", Check.shop("aisle 7 9;lapse 1 1 0 0;"), -1, 1, drawn(-1) * 7, drawn(-1) * 7, drawn(-1));
+        Rows.weeks("all is gone", x, 1, 30, 350, most, 9);
+        Rows.weeks("seed below 0", Check.shop("aisle 7 9;lapse 1 1 0 0;"), -1, 1, drawn(-1) * 7, drawn(-1) * 7, drawn(-1));
         for (int no : new int[] {-1, 31, Integer.MAX_VALUE, Integer.MIN_VALUE}) {
             Check.due("weeks of " + no, Check.ILLEGAL, () -> x.weeks(1, no, 0));
             Check.due("weeks what " + no, Check.NO_ELEMENT, () -> x.weeks(1, 1, no));
