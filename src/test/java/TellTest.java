@@ -182,7 +182,7 @@ public final class TellTest {
         }
     }
 
-    /** From seed 1 the draws of 2 are 0 0 1, 0 0 1, 1 0 1 ..: bits 16 to 30 of 1103527590, 2524885223, 662824084 .. */
+    /** From seed 1 the draws of 2 are 0 0 1, 1 1 1, 0 1 0 ..: bits 16 to 30 of 1103527590, 2524885223, 662824084 .. */
     private static void weeks() {
         Rows.weeks("nobody", new ShopEyes(), 1, 30, 0, 0, 0);
         String people = "lapse 1 2 0 0 1 0;lapse 1 3 0 0 1 2 1 0;lapse 1 4 0 0 1 2 3 2 1 0;";
