@@ -83,7 +83,8 @@ public final class PlainTest {
     }
 
     private static void lines() {
-        Check.sentence("SHOP: LINE*. LINE: ('aisle' WORTH STOCK | 'way' AISLE AISLE | 'mirror' AISLE AISLE");
+        Check.sentence("SHOP: LINE*. LINE: ('aisle' WORTH STOCK | 'way' AISLE AISLE | 'mirror' AISLE AISLE |"
+            + " .. | 'notice' NUMBER | 'false' NUMBER | 'stops' NUMBER | 'rule' EXPR) ';'");
         Check.due("no LINE", 0, Check.shop("").count(0));
         Check.due("three", 3, Check.shop("aisle 1 1;aisle 1 1;aisle 1 1;").count(0));
         String two = "aisle 7 8;aisle 9 10;";
@@ -97,7 +98,7 @@ public final class PlainTest {
             Check.fault(two + line.substring(0, number) + ";", 1, two.length() + number);
             Check.fault(two + line.substring(0, number) + "(;", 1, two.length() + number + (line.startsWith("rule") ? 1 : 0));
         }
-        Check.sentence("('buyer' | 'thief' | 'lapse' | 'staff') IN TAKES COAT AISLE AISLE*");
+        Check.sentence("a SORT (0 buyer, 1 thief, 2 lapse, 3 staff), .. ('buyer' | 'thief' | 'lapse' | 'staff') IN TAKES COAT AISLE AISLE*");
         ShopEyes x = Check.shop("aisle 1 1;buyer 2 1 3 0;thief 4 0 5 0 0;lapse 6 3 7 0 0 0;staff 8 4 9 0 0 0 0;");
         for (int p = 0; p < 4; p++) {
             int[] due = {p, 2 + 2 * p, new int[] {1, 0, 3, 4}[p], 3 + 2 * p, p + 1};
@@ -142,14 +143,14 @@ public final class PlainTest {
     }
 
     private static void told() {
-        Check.sentence("0 AISLES, 1 WAYS, 2 MIRRORS, 3 PEOPLE, 4 RULES, 5 NOTICE, 6 FALSE, 7 STOPS, 8 the WATCH (0 nobody, 1 a RULE, ..");
+        Check.sentence("0 AISLES, 1 WAYS, 2 MIRRORS, 3 PEOPLE, 4 RULES, 5 NOTICE, 6 FALSE, 7 STOPS, 8 the WATCH (0 nobody, 1 a RULE, 2 somebody, 3 an AISLE)");
         ShopEyes x = Check.shop(SHOP);
         Rows.count("told", x, 0, 4, 1, 4, 2, 1, 3, 4, 4, 2, 5, 4, 6, 120, 7, 1, 8, 1, 9, 0, 10, 0, 11, 0, 12, 0, 13, 0, 14, 0, 15, 0, 16, 0, 17, 0, 18, 0);
         Check.sentence(".. 9 which (0 without), 10 OPEN (1), 11 DAYS that there were, .. 13 SIGNS, 14 MISSING, 15 bytes of the tape, 16 to 18 STATUS 0 to 2");
-        Check.due("THE WATCH: true", true, x.watch(2, 3));
+        x.watch(2, 3);
         x.open(true);
         x.stops(2);
-        Check.due("A MIRROR more: how many there are", 2, x.mirror(2, 3));
+        x.mirror(2, 3);
         x.days(4);
         x.sign(1, true);
         x.sign(2, true);
@@ -173,6 +174,11 @@ public final class PlainTest {
                 Check.due("aisle " + aisle + " " + what, aisles[aisle][what], y.aisle(aisle, what));
             }
         }
+        Check.sentence("couples of AISLES that are joined. .. in one AISLE one sees another one too");
+        Check.due("joined with AISLE 0", 10, y.aisle(0, 2));
+        Check.due("joined with AISLE 3", 5, y.aisle(3, 2));
+        Check.due("AISLE 1 shows the door", 1, y.aisle(1, 3));
+        Check.due("the door doesn't show AISLE 1", 0, y.aisle(0, 3));
         Check.sentence("Of somebody: 0 SORT, 1 IN, 2 TAKES, 3 COAT, 4 AISLES of the ROUTE");
         int[][] people = {{0, 1, 2, 4, 5}, {1, 2, 3, 7, 6}, {2, 3, 2, 6, 3}, {3, 1, 0, 0, 2}};
         for (int p = 0; p < 4; p++) {
@@ -180,6 +186,15 @@ public final class PlainTest {
                 Check.due("person " + p + " " + what, people[p][what], y.person(p, what));
             }
         }
+        Check.sentence("THE WATCH: true");
+        Check.due("nobody", true, y.watch(0, 0));
+        Check.due("a RULE", true, y.watch(1, 1));
+        Check.due("somebody", true, y.watch(2, 3));
+        Check.due("an AISLE", true, y.watch(3, 3));
+        Check.sentence("A MIRROR more: how many there are");
+        Check.due("two", 2, y.mirror(2, 3));
+        Check.due("three", 3, y.mirror(3, 2));
+        Check.due("what is SEEN in AISLE 2", 8, y.aisle(2, 3));
     }
 
     private static void anew() {
@@ -207,7 +222,7 @@ public final class PlainTest {
 
     private static void dayByHand() {
         ShopEyes x = Check.shop(SHOP);
-        Check.sentence("Of a DAY now: 0 COST, 1 THINGS LOST, 2 CAUGHT, 3 FALSE ones, 4 paid, 5 who were SEEN TAKING (bits), ..");
+        Check.sentence("Of a DAY now: 0 COST, 1 THINGS LOST, 2 CAUGHT, 3 FALSE ones, 4 paid, 5 who were SEEN TAKING (bits), 6 who NOTICED (bits), 7 who is CAUGHT (bits)");
         Rows.day("RULE 0", x, 90, 1, 0, 0, 1, 2, 2, 0);
         ShopEyes y = Check.shop(SHOP);
         y.watch(1, 1);
@@ -345,8 +360,14 @@ public final class PlainTest {
 
     private static void signs() {
         Check.sentence("a COAT (0 to 9), whether he had something");
+        ShopEyes y = new ShopEyes();
+        y.sign(9, false);
+        Rows.odds("he hadn't", y, 9, 0, 1);
+        y.sign(9, true);
+        Rows.odds("another one had", y, 9, 1, 2);
         ShopEyes x = Check.shop(SHOP);
-        Check.due("SIGNS: how many are told", 1, x.sign(7, true));
+        Check.sentence("SIGNS: how many are told");
+        Check.due("one", 1, x.sign(7, true));
         Check.due("two", 2, x.sign(4, false));
         Check.due("three", 3, x.sign(6, true));
         Check.sentence("ODDS: the upper part (what 0), the lower one (1)");
@@ -359,7 +380,7 @@ public final class PlainTest {
         x.sign(3, false);
         Check.due("two of four are not more", 4, x.line());
         Check.due("none", -1, new ShopEyes().line());
-        Check.sentence("A GATE that beeps at so many tenths of those who have, at so many of those who haven't (0 to 10 each)");
+        Check.sentence("A GATE that beeps at so many tenths of those who have, at so many of those who haven't (0 to 10 each): of so many who have (0 to 99) among so many (1 to 99)");
         Rows.gate(2, 10, 9, 1, 9, 13);
         Rows.gate(2, 10, 10, 0, 1, 1);
         Rows.gate(2, 10, 0, 10, 0, 1);
@@ -372,12 +393,13 @@ public final class PlainTest {
     private static void missing() {
         Check.sentence("WHO CAN HAVE the i-th MISSING thing, as bits; THE FEWEST (i NONE), as bits; NONE: none");
         ShopEyes x = Check.shop(SHOP);
-        Check.due("MISSING: how many are told", 1, x.miss(1, 3));
-        Check.due("two", 2, x.miss(3, 10));
+        x.miss(1, 3);
+        x.miss(3, 10);
         Check.due("in AISLE 1 up to MINUTE 3", 11, x.who(0));
         Check.due("in AISLE 3", 4, x.who(1));
         Check.due("one of three, and that one", 5, x.who(ShopEyes.NONE));
-        x.miss(3, 3);
+        Check.sentence("MISSING: how many are told");
+        Check.due("the third one", 3, x.miss(3, 3));
         Check.due("nobody yet", 0, x.who(2));
         Check.due("none", ShopEyes.NONE, x.who(ShopEyes.NONE));
     }
@@ -386,8 +408,9 @@ public final class PlainTest {
         Check.sentence("how many rest (what 0), the first (1; NONE: none rests), SAFEST (2), that most (3); NONE of 2, 3: there are no AISLES");
         Rows.game("none rests", Check.shop(SHOP), 0, -1, 3, 40);
         Rows.game("no AISLES", new ShopEyes(), 0, -1, -1, -1);
+        Check.sentence("how many; the first (10 by the thief's, the DETECTIVE's)");
+        Rows.game("the thief by the door, the DETECTIVE in AISLE 1", Check.shop("aisle 5 1;aisle 7 1;mirror 1 0;false 30;"), 2, 1, 1, -3);
         Check.sentence("the DETECTIVE gains 0 less that");
-        // Without the last AISLE's worth it is where nothing is to be had that the DETECTIVE is best.
         Rows.game("what he doesn't see costs him", Check.shop("aisle 5 1;aisle 7 1;mirror 0 1;false 30;"), 2, 0, 0, -3);
         Rows.game("he sees neither from AISLE 1", Check.shop("aisle 5 1;aisle 7 1;false 30;"), 0, -1, 1, 5);
     }
