@@ -312,6 +312,7 @@ public final class ShopEyes {
         int many = by == 0 ? shop.floor.aisles : by == 1 ? shop.people.many : shop.rules.many;
         int which = NONE;
         int least = NONE;
+        // No COST is below 0: what is found at 0 is the first of like ones, and the search ends (so in glass and lay).
         for (int i = 0; i < many && least != 0; i++) {
             int cost = costWatched(how, i);
             if (least == NONE || cost < least) {
